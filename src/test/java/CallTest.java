@@ -189,6 +189,8 @@ final class CallTest {
         Check.due("rebates(1, 1)", x.rebates(1, 1), 0);
         x.cancel(0);
         Check.due("rebates behind cancel", x.rebates(0, 1), -35 - 35 - 175);
+        PortDues y = Check.loaded(TEXT + "call a 3599 to 3599 waste 0;call a 3240 to 3240 waste 0;");
+        Check.due("rebates(0, 9), by the first call", y.rebates(0, 9), -35);
         for (int ship : Check.outside(0, 1)) {
             Check.dueThrow("rebates(" + ship + ", 10)", Check.INDEX, () -> x.rebates(ship, 10));
         }
@@ -255,6 +257,7 @@ final class CallTest {
         Check.due("a rebate of 0 is none", x.callsToRebate(0, 7), 4);
         x.setPercent(1, 0);
         Check.due("all are 0", x.callsToRebate(0, 7), PortDues.NONE);
+        Check.due("in the last year", Check.loaded(TEXT).callsToRebate(0, 9), 2);
         PortDues far = Check.loaded("rebate 99 percent 1;ship a tons 1;");
         Check.due("the 99th call", far.callsToRebate(0, 0), 99);
         Check.due("without rebates", Check.loaded("ship a tons 1;").callsToRebate(0, 0), PortDues.NONE);
@@ -306,6 +309,8 @@ final class CallTest {
         x.cancel(0);
         Check.due("cancelled ones do not count", x.busiestYear(0), 2);
         Check.due("another ship", x.busiestYear(1), 0);
+        x.addCall(1, 719, 719, 0);
+        Check.due("year 1", x.busiestYear(1), 1);
         for (int ship : Check.outside(0, 1)) {
             Check.dueThrow("busiestYear(" + ship + ")", Check.INDEX, () -> x.busiestYear(ship));
         }
@@ -401,6 +406,11 @@ final class CallTest {
         Check.due("behind cancel", x.bestDay(0, 700, 799, 1, 0), 700);
         Check.due("the last day", x.bestDay(0, 3599, 3599, 30, 0), 3599);
         Check.due("one day", x.bestDay(0, 7, 7, 1, 0), 7);
+        Check.due("from day 0", x.bestDay(0, 0, 99, 1, 0), 0);
+        PortDues y = Check.loaded(TEXT + "call a 730 to 730 waste 0;");
+        Check.due("the day to which it asks", y.bestDay(0, 700, 720, 1, 0), 720);
+        Check.due("the day before is not enough", y.bestDay(0, 700, 719, 1, 0), 700);
+        Check.due("the second day", y.bestDay(0, 719, 730, 1, 0), 720);
         for (int ship : Check.outside(0, 1)) {
             Check.dueThrow("bestDay of ship " + ship, Check.INDEX, () -> x.bestDay(ship, -1, 0, 0, -1));
         }

@@ -127,13 +127,15 @@ final class Check {
     // ---- the whole state, to see that nothing has changed
 
     static String state(PortDues x) {
+        return x.undoCount() + " " + x.errorCode() + " " + x.errorPosition() + " " + rows(x);
+    }
+
+    /** All that undo() restores. */
+    static String rows(PortDues x) {
         List<Long> values = new ArrayList<>();
         for (int what = 0; what <= 8; what++) {
             values.add((long) x.count(what));
         }
-        values.add((long) x.undoCount());
-        values.add((long) x.errorCode());
-        values.add((long) x.errorPosition());
         for (int what = 0; what <= 5; what++) {
             values.add((long) x.tariff(what));
         }

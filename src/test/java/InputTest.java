@@ -100,6 +100,12 @@ final class InputTest {
         Check.due("paid behind load", x.paid(0), 0);
         Check.due("the buffer is empty behind load", x.append(0, 0, 0, 0, 0), 20);
         Check.due("a text without a ship", Check.load(new PortDues(), "slices;"), 0);
+        PortDues y = new PortDues();
+        String text = "slab;waste fixed 1 free 1 price 1;lay free 1 rate 1;ship a tons 1;";
+        for (int i = 0; i < 3; i++) {
+            Check.due("the same statements in each text", Check.load(y, text), 1);
+            Check.due("a broken text between", Check.load(y, text + "x"), PortDues.PARSE_ERROR);
+        }
     }
 
     private static void accepted(String text) {
@@ -158,6 +164,8 @@ final class InputTest {
         refused("ship a ton 1;", 1, 7);
         refused("ship a tons a;", 1, 12);
         refused("ship a tons 1", 1, 13);
+        refused("ship a tons 1:", 1, 13);
+        refused("slab, band 0 rate 1;", 1, 4);
         refused("ship a tons 1 \n", 1, 15);
         refused("call to 1 to 1 waste 1;", 1, 5);
         refused("call abcdefg 1 to 1 waste 1;", 1, 5);
@@ -200,6 +208,7 @@ final class InputTest {
         refused("lay free 31 rate 0;", 2, 9);
         refused("lay free 0 rate 10000;", 2, 16);
         accepted("lay free 0 rate 0;");
+        accepted("waste fixed 0 free 0 price 0;");
         refused("ship a tons 0;", 2, 12);
         refused("ship a tons 10000;", 2, 12);
         refused("ship a tons 1;call a 3600 to 3600 waste 0;", 2, 21);

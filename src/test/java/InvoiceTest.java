@@ -204,6 +204,8 @@ final class InvoiceTest {
         Check.due("balance(0)", x.balance(0), 700);
         x.pay(0, 379);
         Check.due("open(0)", x.open(0), 1);
+        Check.due("oldestOpen(0) with 1 open", x.oldestOpen(0), 0);
+        Check.due("overdue with 1 open", x.overdue(0), 3);
         Check.due("open(2)", x.open(2), 320);
         x.pay(0, 1);
         Check.due("open(0)", x.open(0), 0);
@@ -236,6 +238,20 @@ final class InvoiceTest {
         Check.due("open(0)", x.open(0), 0);
         Check.due("oldestOpen", x.oldestOpen(0), PortDues.NONE);
         Check.due("its statement", Check.statement(x, 0), "a\n0 380 0\n1 -35 0\n0\n");
+        PortDues y = Check.loaded(TEXT);
+        y.bill(1);
+        y.bill(0);
+        y.credit(0, 5);
+        Check.due("invoice 0 has a net below 0", y.net(0), -35);
+        Check.due("it goes to a later one", y.open(1), 345);
+        PortDues one = Check.loaded("waste fixed 1 free 0 price 0;ship a tons 1;call a 0 to 0 waste 0;");
+        one.bill(0);
+        Check.due("a net of 1", one.open(0), 1);
+        one.addCall(0, 1, 1, 0);
+        one.bill(1);
+        one.credit(0, 4);
+        one.pay(0, 1);
+        Check.due("a net of 0 takes nothing", one.open(1), 0);
         Check.due("its sheet", Check.invoiceSheet(x, 1), "invoice 1 ship a call 1 date 0\ndues 350 credited\nrebate -35\n"
                 + "waste 5 credited\nnet -35 open 0\n");
     }
@@ -368,6 +384,12 @@ final class InvoiceTest {
         for (int call : Check.outside(0, 2)) {
             Check.dueRefused(x, "settle(" + call + ", 3)", Check.INDEX, () -> x.settle(call, 3, true));
         }
+        PortDues y = Check.loaded("lay free 0 rate 1;ship a tons 1;call a 0 to 29 waste 0;");
+        Check.due("dispute of day 0", y.dispute(0, 0), 1);
+        Check.due("dispute of day 29", y.dispute(0, 29), 2);
+        Check.due("settle of day 29", y.settle(0, 29, true), 1);
+        Check.due("settle of day 0", y.settle(0, 0, true), 0);
+        Check.due("upheld", y.upheld(0), 1 << 29 | 1);
         x.cancel(2);
         Check.due("pending days of a cancelled call", x.count(8), 1);
         Check.due("settle for a cancelled call", x.settle(2, 3, true), 0);

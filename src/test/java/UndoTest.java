@@ -13,6 +13,8 @@ final class UndoTest {
         loads();
         throwsAndQueriesDoNotCount();
         throughTheRing();
+        rowsThatAreUsedAgain();
+        rowsOfAnotherText();
         Check.finish();
     }
 
@@ -134,6 +136,65 @@ final class UndoTest {
         Check.put(y, "ship q tons 1;");
         y.undo();
         Check.due("the input buffer stays behind undo", y.load(), 1);
+    }
+
+    /** What an undone or replaced call or invoice had does not come back with the next one of its number. */
+    private static void rowsThatAreUsedAgain() {
+        PortDues x = new PortDues();
+        String text = "lay free 0 rate 7;ship a tons 150;";
+        String freshCall = "";
+        String freshInvoice = "";
+        for (int i = 0; i < 4; i++) {
+            Check.load(x, text);
+            x.addCall(0, 3, 9, 4);
+            freshCall = i == 0 ? Check.rows(x) : freshCall;
+            Check.due("a call in the place of another", Check.rows(x), freshCall);
+            x.bill(0);
+            freshInvoice = i == 0 ? Check.rows(x) : freshInvoice;
+            Check.due("an invoice in the place of another", Check.rows(x), freshInvoice);
+            x.credit(0, 15);
+            x.pay(0, 5);
+            x.dispute(0, 2);
+            x.settle(0, 2, true);
+            x.dispute(0, 3);
+            x.cancel(0);
+            Check.due("the pending day of the cancelled call", x.pending(0), 8);
+        }
+        Check.load(x, text);
+        x.addCall(0, 3, 9, 4);
+        x.undo();
+        x.addCall(0, 3, 9, 4);
+        Check.due("a call in the place of an undone one", Check.rows(x), freshCall);
+    }
+
+    /** A text that was loaded in between has used the same rows. */
+    private static void rowsOfAnotherText() {
+        PortDues x = Check.loaded(TEXT);
+        x.advance(3);
+        x.setLay(0, 8);
+        x.setRate(0, 3);
+        x.billAll(0);
+        x.billAll(1);
+        x.credit(0, 5);
+        x.credit(1, 2);
+        x.credit(2, 8);
+        x.pay(1, 99);
+        x.dispute(1, 5);
+        String before = Check.rows(x);
+        String sheets = Check.invoiceSheet(x, 0) + Check.invoiceSheet(x, 1) + Check.invoiceSheet(x, 2);
+        Check.load(x, "slab;band 0 rate 1;rebate 9 percent 9;ship q tons 3;ship r tons 2;call r 0 to 0 waste 0;"
+                + "call q 1 to 1 waste 1;call r 800 to 800 waste 0;waste fixed 9 free 8 price 7;");
+        x.setRate(0, 2);
+        x.billAll(1);
+        x.credit(1, 2);
+        x.credit(0, 4);
+        x.billAll(0);
+        for (int i = 0; i < 6; i++) {
+            x.undo();
+        }
+        Check.due("the rows of the first text", Check.rows(x), before);
+        Check.due("its sheets", Check.invoiceSheet(x, 0) + Check.invoiceSheet(x, 1) + Check.invoiceSheet(x, 2), sheets);
+        Check.due("its names", Check.find(x, "b"), 1);
     }
 
     private static void throughTheRing() {
