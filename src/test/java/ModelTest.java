@@ -56,9 +56,11 @@ final class ModelTest {
             text(run, randomText(random.nextInt(4) == 0));
         }
         int quiet = 1 + random.nextInt(6);
+        // Some runs only grow, so that they come to the limits.
+        boolean grows = random.nextInt(3) == 0;
         while (calls < CALLS) {
             int kind = random.nextInt(100);
-            if (kind < 1) {
+            if (kind < 1 && !grows) {
                 text(run, randomText(random.nextInt(3) == 0));
             } else if (kind < 3) {
                 put(run, random.nextBoolean() ? "s" + random.nextInt(9) : name(random.nextInt(9)));
@@ -67,7 +69,8 @@ final class ModelTest {
                 boolean ask = random.nextInt(6) < quiet;
                 List<Method> list = ask ? queries : changes;
                 Method m = list.get(random.nextInt(list.size()));
-                if (m.getName().equals("bestDay") && random.nextInt(4) != 0) {
+                boolean rare = m.getName().equals("bestDay") || grows && m.getName().equals("undo");
+                if (rare && random.nextInt(4) != 0) {
                     continue;
                 }
                 both(run, m, arguments(m));
