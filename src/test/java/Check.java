@@ -31,8 +31,19 @@ final class Check {
     static void due(String what, String got, String want) {
         checks++;
         if (!got.equals(want)) {
-            report(what + " answered\n" + got + "\ndue is\n" + want);
+            int same = 0;
+            while (same < got.length() && same < want.length() && got.charAt(same) == want.charAt(same)) {
+                same++;
+            }
+            report(what + " answered\n" + around(got, same) + "\ndue is\n" + around(want, same));
         }
+    }
+
+    /** A long text, only around the place that matters. */
+    private static String around(String text, int place) {
+        int from = Math.max(place - 200, 0);
+        int to = Math.min(place + 200, text.length());
+        return (from > 0 ? ".." : "") + text.substring(from, to) + (to < text.length() ? ".." : "");
     }
 
     static void dueThrow(String what, String exception, Action action) {
@@ -176,5 +187,60 @@ final class Check {
         String before = state(x);
         dueThrow(what, exception, action);
         due("the state behind " + what, state(x), before);
+    }
+
+    /**
+     * All that an object answers, both buffers and what undo() brings back included. The object is
+     * used up by it.
+     */
+    static String whole(PortDues x) {
+        StringBuilder text = new StringBuilder("output " + rest(x) + "\ninput " + inputLength(x) + "\n" + state(x));
+        text.append("\nload ").append(x.load()).append(' ').append(state(x));
+        while (x.undoCount() > 0) {
+            text.append("\nundo ").append(x.undo()).append(' ').append(state(x));
+        }
+        return text.toString();
+    }
+
+    /** What stands in the output buffer, whoever wrote it. */
+    static String rest(PortDues x) {
+        StringBuilder text = new StringBuilder();
+        while (thrownBy(() -> x.outputByte(text.length())).equals("nothing")) {
+            text.append((char) x.outputByte(text.length()));
+        }
+        return text.toString();
+    }
+
+    /** truncate() to more than the length throws, to the length itself changes nothing. */
+    static int inputLength(PortDues x) {
+        int length = 800;
+        while (length > 0 && !truncates(x, length)) {
+            length--;
+        }
+        return length;
+    }
+
+    private static boolean truncates(PortDues x, int length) {
+        return thrownBy(() -> x.truncate(length)).equals("nothing");
+    }
+
+    // ---- texts that are parsed
+
+    static void accepted(String text) {
+        PortDues x = new PortDues();
+        int ships = load(x, text);
+        due("load of " + text, ships >= 0, true);
+        due("errorCode of " + text, x.errorCode(), 0);
+        due("errorPosition of " + text, x.errorPosition(), PortDues.NONE);
+        due("the buffer behind " + text, x.append(0, 0, 0, 0, 0), 20);
+    }
+
+    static void refused(String text, int code, int position) {
+        PortDues x = new PortDues();
+        due("load of " + text, load(x, text), PortDues.PARSE_ERROR);
+        due("errorCode of " + text, x.errorCode(), code);
+        due("errorPosition of " + text, x.errorPosition(), position);
+        due("undoCount behind " + text, x.undoCount(), 0);
+        due("the buffer behind " + text, x.append(0, 0, 0, 0, 0), 20);
     }
 }

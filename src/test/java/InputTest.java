@@ -10,10 +10,6 @@ final class InputTest {
         loadReplacesAll();
         tokens();
         misplacedTokens();
-        ranges();
-        clashes();
-        limits();
-        leftmostErrorCounts();
         errorState();
         find();
         outputByte();
@@ -108,165 +104,60 @@ final class InputTest {
         }
     }
 
-    private static void accepted(String text) {
-        PortDues x = new PortDues();
-        int ships = Check.load(x, text);
-        Check.due("load of " + text, ships >= 0, true);
-        Check.due("errorCode of " + text, x.errorCode(), 0);
-        Check.due("errorPosition of " + text, x.errorPosition(), PortDues.NONE);
-        Check.due("the buffer behind " + text, x.append(0, 0, 0, 0, 0), 20);
-    }
-
-    private static void refused(String text, int code, int position) {
-        PortDues x = new PortDues();
-        Check.due("load of " + text, Check.load(x, text), PortDues.PARSE_ERROR);
-        Check.due("errorCode of " + text, x.errorCode(), code);
-        Check.due("errorPosition of " + text, x.errorPosition(), position);
-        Check.due("undoCount behind " + text, x.undoCount(), 0);
-        Check.due("the buffer behind " + text, x.append(0, 0, 0, 0, 0), 20);
-    }
-
     private static void tokens() {
-        accepted("band0rate2;rebate2percent3;ship a tons1;call a0to0waste0;");
-        accepted("  band\n0 \n rate 2\n;\n ");
-        accepted("band 0000000000000000000000000000000000000000000 rate 00000000000000000000000000999;");
-        accepted("ship shipx tons 1;ship tonsy tons 1;ship abcdef tons 9999;");
-        accepted("lay free 30 rate 9999;waste fixed 9999 free 999 price 999;slab;");
-        refused("band 0 rate 99999999999999999999999999999999999999999999;", 2, 12);
-        refused("band 0 rate 4294967297;", 2, 12);
-        refused("band 0 rate 4294967296000;", 2, 12);
-        refused("bandx 0 rate 1;", 1, 0);
-        refused("band 0\trate 1;", 1, 6);
-        refused("Band 0 rate 1;", 1, 0);
-        refused("band -1 rate 1;", 1, 5);
-        refused("band 0 rate 1;\u00e4", 1, 14);
-        refused("band 0 rate 1;\u0000", 1, 14);
-        refused("ship \u00e1 tons 1;", 1, 5);
-        refused("ship a1 tons 1;", 1, 6);
-        refused("ship a tons 1 5;", 1, 14);
-        refused("ship a tons\r1;", 1, 11);
+        Check.accepted("band0rate2;rebate2percent3;ship a tons1;call a0to0waste0;");
+        Check.accepted("  band\n0 \n rate 2\n;\n ");
+        Check.accepted("band 0000000000000000000000000000000000000000000 rate 00000000000000000000000000999;");
+        Check.accepted("ship shipx tons 1;ship tonsy tons 1;ship abcdef tons 9999;");
+        Check.accepted("lay free 30 rate 9999;waste fixed 9999 free 999 price 999;slab;");
+        Check.refused("band 0 rate 99999999999999999999999999999999999999999999;", 2, 12);
+        Check.refused("band 0 rate 4294967297;", 2, 12);
+        Check.refused("band 0 rate 4294967296000;", 2, 12);
+        Check.refused("bandx 0 rate 1;", 1, 0);
+        Check.refused("band 0\trate 1;", 1, 6);
+        Check.refused("Band 0 rate 1;", 1, 0);
+        Check.refused("band -1 rate 1;", 1, 5);
+        Check.refused("band 0 rate 1;\u00e4", 1, 14);
+        Check.refused("band 0 rate 1;\u0000", 1, 14);
+        Check.refused("ship \u00e1 tons 1;", 1, 5);
+        Check.refused("ship a1 tons 1;", 1, 6);
+        Check.refused("ship a tons 1 5;", 1, 14);
+        Check.refused("ship a tons\r1;", 1, 11);
     }
 
     private static void misplacedTokens() {
-        refused("", 1, 0);
-        refused("   ", 1, 3);
-        refused(";", 1, 0);
-        refused("7", 1, 0);
-        refused("slices", 1, 6);
-        refused("slices;;", 1, 7);
-        refused("slices; x", 1, 8);
-        refused("slab slab;", 1, 5);
-        refused("rate 1;", 1, 0);
-        refused("ship slab tons 1;", 1, 5);
-        refused("ship abcdefg tons 1;", 1, 5);
-        refused("ship 1 tons 1;", 1, 5);
-        refused("ship ; tons 1;", 1, 5);
-        refused("ship a ton 1;", 1, 7);
-        refused("ship a tons a;", 1, 12);
-        refused("ship a tons 1", 1, 13);
-        refused("ship a tons 1:", 1, 13);
-        refused("slab, band 0 rate 1;", 1, 4);
-        refused("ship a tons 1 \n", 1, 15);
-        refused("call to 1 to 1 waste 1;", 1, 5);
-        refused("call abcdefg 1 to 1 waste 1;", 1, 5);
-        refused("ship a tons 1;call a 1 tons 2 waste 1;", 1, 23);
-        refused("ship a tons 1;call a 1 to 2;", 1, 27);
-        refused("ship a tons 1;call a 1 to 2 waste;", 1, 33);
-        refused("band rate 1;", 1, 5);
-        refused("band 0 percent 1;", 1, 7);
-        refused("rebate 2 rate 1;", 1, 9);
-        refused("waste free 1 fixed 1 price 1;", 1, 6);
-        refused("waste fixed 1 price 1 free 1;", 1, 14);
-        refused("waste fixed 1 free 1;", 1, 20);
-        refused("lay rate 1 free 1;", 1, 4);
-        refused("lay free 1;", 1, 10);
-        String[] keywords = {"slices", "slab", "band", "rate", "rebate", "percent", "waste", "fixed", "free",
-            "price", "lay", "ship", "tons", "call", "to"};
-        for (String keyword : keywords) {
-            refused("ship " + keyword + " tons 1;", 1, 5);
-        }
-    }
-
-    private static void ranges() {
-        refused("band 1 rate 1;", 2, 5);
-        refused("band 0 rate 1000;", 2, 12);
-        refused("band 0 rate 1;band 0 rate 1;", 2, 19);
-        refused("band 0 rate 1;band 5 rate 1;band 5 rate 1;", 2, 33);
-        accepted("band 0 rate 1;band 1 rate 1;band 9999 rate 0;");
-        refused("band 0 rate 1;band 10000 rate 1;", 2, 19);
-        refused("band 0 rate 1;band 9999 rate 1;band 9999 rate 1;", 2, 36);
-        refused("band 0 rate 1;band 9999 rate 1;band 10000 rate 1;", 2, 36);
-        refused("rebate 1 percent 1;", 2, 7);
-        refused("rebate 100 percent 1;", 2, 7);
-        accepted("rebate 2 percent 0;rebate 99 percent 100;");
-        refused("rebate 2 percent 101;", 2, 17);
-        refused("rebate 2 percent 1;rebate 2 percent 1;", 2, 26);
-        refused("rebate 99 percent 1;rebate 100 percent 1;", 2, 27);
-        refused("waste fixed 10000 free 0 price 0;", 2, 12);
-        refused("waste fixed 0 free 1000 price 0;", 2, 19);
-        refused("waste fixed 0 free 0 price 1000;", 2, 27);
-        refused("lay free 31 rate 0;", 2, 9);
-        refused("lay free 0 rate 10000;", 2, 16);
-        accepted("lay free 0 rate 0;");
-        accepted("waste fixed 0 free 0 price 0;");
-        refused("ship a tons 0;", 2, 12);
-        refused("ship a tons 10000;", 2, 12);
-        refused("ship a tons 1;call a 3600 to 3600 waste 0;", 2, 21);
-        refused("ship a tons 1;call a 7 to 6 waste 0;", 2, 26);
-        refused("ship a tons 1;call a 7 to 37 waste 0;", 2, 26);
-        accepted("ship a tons 1;call a 7 to 36 waste 0;");
-        accepted("ship a tons 1;call a 3599 to 3628 waste 999;");
-        refused("ship a tons 1;call a 3599 to 3629 waste 0;", 2, 29);
-        refused("ship a tons 1;call a 7 to 7 waste 1000;", 2, 34);
-    }
-
-    private static void clashes() {
-        refused("slices;slices;", 3, 7);
-        refused("slices;slab;", 3, 7);
-        refused("slab;slices;", 3, 5);
-        refused("slab;slab", 3, 5);
-        refused("lay free 1 rate 1;lay", 3, 18);
-        refused("waste fixed 1 free 1 price 1; waste", 3, 30);
-        refused("ship a tons 1;ship a tons 1;", 3, 19);
-        accepted("ship a tons 1;ship aa tons 1;ship b tons 1;");
-        refused("call a 1 to 1 waste 1;ship a tons 1;", 3, 5);
-        refused("ship a tons 1;call aa 1 to 1 waste 1;", 3, 19);
-        refused("ship ab tons 1;call a 1 to 1 waste 1;", 3, 20);
-    }
-
-    private static void limits() {
-        StringBuilder bands = new StringBuilder();
-        for (int i = 0; i < 6; i++) {
-            bands.append("band ").append(i).append(" rate 1;");
-        }
-        accepted(bands.toString());
-        refused(bands + "band", 4, bands.length());
-        refused(bands + "band 0 rate 1;", 4, bands.length());
-        StringBuilder rebates = new StringBuilder();
-        for (int i = 0; i < 4; i++) {
-            rebates.append("rebate ").append(i + 2).append(" percent 1;");
-        }
-        accepted(rebates.toString());
-        refused(rebates + " rebate", 4, rebates.length() + 1);
-        StringBuilder ships = new StringBuilder();
-        for (int i = 0; i < 8; i++) {
-            ships.append("ship ").append((char) ('a' + i)).append(" tons 1;");
-        }
-        accepted(ships.toString());
-        refused(ships + "ship a", 4, ships.length());
-        StringBuilder calls = new StringBuilder("ship a tons 1;");
-        for (int i = 0; i < 20; i++) {
-            calls.append("call a 1 to 1 waste 1;");
-        }
-        accepted(calls.toString());
-        refused(calls + "call a 1", 4, calls.length());
-    }
-
-    private static void leftmostErrorCounts() {
-        refused("ship a tons 0;ship a tons 1;", 2, 12);
-        refused("call x 9999 to", 3, 5);
-        refused("band 1 x", 2, 5);
-        refused("slab;slab;band 7", 3, 5);
+        Check.refused("", 1, 0);
+        Check.refused("   ", 1, 3);
+        Check.refused(";", 1, 0);
+        Check.refused("7", 1, 0);
+        Check.refused("slices", 1, 6);
+        Check.refused("slices;;", 1, 7);
+        Check.refused("slices; x", 1, 8);
+        Check.refused("slab slab;", 1, 5);
+        Check.refused("rate 1;", 1, 0);
+        Check.refused("ship slab tons 1;", 1, 5);
+        Check.refused("ship abcdefg tons 1;", 1, 5);
+        Check.refused("ship 1 tons 1;", 1, 5);
+        Check.refused("ship ; tons 1;", 1, 5);
+        Check.refused("ship a ton 1;", 1, 7);
+        Check.refused("ship a tons a;", 1, 12);
+        Check.refused("ship a tons 1", 1, 13);
+        Check.refused("ship a tons 1:", 1, 13);
+        Check.refused("slab, band 0 rate 1;", 1, 4);
+        Check.refused("ship a tons 1 \n", 1, 15);
+        Check.refused("call to 1 to 1 waste 1;", 1, 5);
+        Check.refused("call abcdefg 1 to 1 waste 1;", 1, 5);
+        Check.refused("ship a tons 1;call a 1 tons 2 waste 1;", 1, 23);
+        Check.refused("ship a tons 1;call a 1 to 2;", 1, 27);
+        Check.refused("ship a tons 1;call a 1 to 2 waste;", 1, 33);
+        Check.refused("band rate 1;", 1, 5);
+        Check.refused("band 0 percent 1;", 1, 7);
+        Check.refused("rebate 2 rate 1;", 1, 9);
+        Check.refused("waste free 1 fixed 1 price 1;", 1, 6);
+        Check.refused("waste fixed 1 price 1 free 1;", 1, 14);
+        Check.refused("waste fixed 1 free 1;", 1, 20);
+        Check.refused("lay rate 1 free 1;", 1, 4);
+        Check.refused("lay free 1;", 1, 10);
     }
 
     private static void errorState() {
