@@ -18,6 +18,7 @@ final class EdgeInvoiceTest {
         billableDays();
         billedDaysOfSeveral();
         nothingToBill();
+        linesAsTheyWereBilled();
         sixtyInvoices();
         billAllOfNothing();
         fortyNotes();
@@ -260,6 +261,35 @@ final class EdgeInvoiceTest {
         Check.dueRefused(y, "bill without room", Check.STATE, () -> y.bill(38));
         y.undo();
         Check.due("bill behind undo", y.bill(38), 59);
+    }
+
+    // "The net of an invoice is the sum of its lines that are not credited." Its lines, not the rebuilt ones.
+    private static void linesAsTheyWereBilled() {
+        PortDues x = Check.loaded(TEXT + "call a 5 to 8 waste 30;");
+        x.bill(0);
+        x.bill(1);
+        x.setTons(0, 9);
+        x.setWaste(1, 0);
+        x.addCall(0, 0, 0, 0);
+        x.addCall(0, 1, 1, 0);
+        x.dispute(1, 2);
+        x.setRate(0, 9);
+        Check.due("the dues now", x.rebuilt(1, 0), 9);
+        Check.due("the rebate now", x.rebuilt(1, 1), -4);
+        Check.due("the waste fee now", x.rebuilt(1, 2), 5);
+        Check.due("the lay days now", x.rebuilt(1, 3), 7);
+        dueLines("as billed", x, 1, 100, -10, 45, 14);
+        Check.due("net", x.net(1), 149);
+        Check.due("open", x.open(1), 149);
+        Check.due("balance", x.balance(0), 277);
+        int[] revenue = {200, -10, 52, 35};
+        for (int line = 0; line < 4; line++) {
+            Check.due("revenue(0, " + line + ")", x.revenue(0, line), revenue[line]);
+        }
+        Check.due("the statement", Check.statement(x, 0), "a\n0 128 128\n1 149 149\n277\n");
+        x.credit(1, 7);
+        Check.due("the amount of the note", x.note(0, 3), -135);
+        Check.due("the net then", x.net(1), 14);
     }
 
     // billAll: "Returns how many were made." "in ascending order"

@@ -20,6 +20,7 @@ final class EdgeSheetTest {
         disputeOnce();
         settlePendingOnly();
         settledAsNeverDisputed();
+        pendingDaysOfOneCall();
         advanceToTheLastDay();
         overdueByDays();
         revenueOfYears();
@@ -252,6 +253,23 @@ final class EdgeSheetTest {
         y.bill(0);
         Check.due("its invoice", Check.invoiceSheet(x, 0), Check.invoiceSheet(y, 0));
         Check.due("dispute once more", x.dispute(0, 4), 1);
+    }
+
+    // dispute and settle: "Returns how many of its days are pending then."
+    private static void pendingDaysOfOneCall() {
+        PortDues x = Check.loaded("lay free 0 rate 1;ship a tons 1;ship b tons 1;call a 0 to 9 waste 0;"
+                + "call a 0 to 9 waste 0;call b 0 to 9 waste 0;");
+        Check.due("the first day of call 1", x.dispute(1, 0), 1);
+        Check.due("its second day", x.dispute(1, 9), 2);
+        Check.due("a day of another call", x.dispute(0, 0), 1);
+        Check.due("a day of another ship", x.dispute(2, 9), 1);
+        Check.due("the third day of call 1", x.dispute(1, 5), 3);
+        Check.due("count(8)", x.count(8), 5);
+        Check.due("settle in favour", x.settle(1, 0, true), 2);
+        Check.due("upheld days do not count", x.dispute(1, 1), 3);
+        Check.due("settle of the other call", x.settle(0, 0, false), 0);
+        Check.due("settle not in favour", x.settle(1, 9, false), 2);
+        Check.due("count(8) then", x.count(8), 3);
     }
 
     // advance: "days: 1 to 3600", "IllegalStateException if today would be above 99999"

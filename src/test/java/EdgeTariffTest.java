@@ -324,8 +324,16 @@ final class EdgeTariffTest {
         x.setLay(29, 1);
         x.setLay(29, 1);
         x.setLay(0, 9999);
+        x.setPercent(2, 99);
+        x.setPercent(2, 99);
+        x.setPercent(2, 100);
+        x.setRate(3, 998);
+        x.setRate(3, 998);
+        x.setLay(1, 9999);
+        x.setLay(1, 9998);
         String[] changed = {"", "band 0 rate 4", "band 0 rate 3", "rebate 41 percent 8", "lay free 30 rate 1",
-            "lay free 29 rate 1", "", "lay free 0 rate 9999"};
+            "lay free 29 rate 1", "", "lay free 0 rate 9999", "rebate 5 percent 99", "", "rebate 5 percent 100",
+            "band 101 rate 998", "", "lay free 1 rate 9999", "lay free 1 rate 9998"};
         for (int version = 0; version < changed.length; version++) {
             Check.due("changed in version " + version, marked(x, version), changed[version]);
         }
