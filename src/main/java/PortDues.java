@@ -716,14 +716,6 @@ public final class PortDues {
             return true;
         }
 
-        String textAt(int from, int to) {
-            StringBuilder text = new StringBuilder();
-            for (int i = from; i < to; i++) {
-                text.append((char) (byteAt(i) & 255));
-            }
-            return text.toString();
-        }
-
         void put(int value) {
             if (length < data.length) {
                 data[length] = (byte) value;
@@ -854,14 +846,36 @@ public final class PortDues {
     }
 
     private static final class Ship {
-        String name = "";
+        // Bytes in the row, not a String, so that a load() makes no objects.
+        final byte[] name = new byte[MAX_NAME];
+        int nameLength;
         int tons;
         long paid;
 
         void copyFrom(Ship other) {
-            name = other.name;
+            System.arraycopy(other.name, 0, name, 0, MAX_NAME);
+            nameLength = other.nameLength;
             tons = other.tons;
             paid = other.paid;
+        }
+
+        void takeName(Bytes text, int from, int to) {
+            nameLength = Math.min(to - from, MAX_NAME);
+            for (int i = 0; i < nameLength; i++) {
+                name[i] = (byte) text.byteAt(from + i);
+            }
+        }
+
+        boolean isNamed(Bytes text, int from, int to) {
+            if (to - from != nameLength) {
+                return false;
+            }
+            for (int i = 0; i < nameLength; i++) {
+                if (name[i] != text.byteAt(from + i)) {
+                    return false;
+                }
+            }
+            return true;
         }
     }
 
@@ -1033,9 +1047,9 @@ public final class PortDues {
             return present();
         }
 
-        int newShip(String name, int tons) {
+        int newShip(Bytes text, int nameFrom, int nameTo, int tons) {
             Ship ship = ships[shipCount];
-            ship.name = name;
+            ship.takeName(text, nameFrom, nameTo);
             ship.tons = tons;
             ship.paid = 0;
             return shipCount++;
@@ -1055,7 +1069,7 @@ public final class PortDues {
 
         int shipNamed(Bytes text, int from, int to) {
             for (int i = 0; i < shipCount; i++) {
-                if (text.isAt(from, to, ships[i].name)) {
+                if (ships[i].isNamed(text, from, to)) {
                     return i;
                 }
             }
@@ -1302,7 +1316,7 @@ public final class PortDues {
 
         void statement(int ship) {
             out.length = 0;
-            out.putText(ledger.ships[ship].name);
+            shipName(ledger.ships[ship]);
             out.put('\n');
             for (int i = 0; i < ledger.invoiceCount; i++) {
                 if (accounts.shipOf(i) == ship) {
@@ -1321,7 +1335,7 @@ public final class PortDues {
             out.length = 0;
             wordAndNumber("invoice ", number);
             out.putText(" ship ");
-            out.putText(ledger.ships[accounts.shipOf(number)].name);
+            shipName(ledger.ships[accounts.shipOf(number)]);
             wordAndNumber(" call ", invoice.call);
             wordAndNumber(" date ", invoice.date);
             out.put('\n');
@@ -1401,6 +1415,12 @@ public final class PortDues {
 
         private void endTariffLine(boolean changed) {
             out.putText(changed ? " changed\n" : "\n");
+        }
+
+        private void shipName(Ship ship) {
+            for (int i = 0; i < ship.nameLength; i++) {
+                out.put(ship.name[i]);
+            }
         }
 
         private void wordAndNumber(String word, long number) {
@@ -1580,13 +1600,13 @@ public final class PortDues {
             if (target.shipNamed(text, start, end) != NONE) {
                 return fail(CLASH);
             }
-            int nameStart = start;
-            int nameEnd = end;
+            int nameFrom = start;
+            int nameTo = end;
             readToken();
             if (!word("tons") || !number(1, MAX_TONS)) {
                 return false;
             }
-            target.newShip(text.textAt(nameStart, nameEnd), value);
+            target.newShip(text, nameFrom, nameTo, value);
             return true;
         }
 
