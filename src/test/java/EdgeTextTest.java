@@ -20,6 +20,7 @@ final class EdgeTextTest {
         symbols();
         separators();
         names();
+        almostKeywords();
         namesInCalls();
         numberRanges();
         numbersAboveAnother();
@@ -222,6 +223,40 @@ final class EdgeTextTest {
                 Check.accepted("ship x" + keyword + " tons 1;");
             }
         }
+    }
+
+    // Each letter of a keyword counts: another one in its place makes a NAME of it, and no statement.
+    private static void almostKeywords() {
+        for (String keyword : KEYWORDS) {
+            for (int i = 0; i < keyword.length(); i++) {
+                String almost = withOtherLetter(keyword, i);
+                if (almost.length() <= 6) {
+                    Check.accepted("ship " + almost + " tons 1;");
+                    Check.accepted("ship " + almost + " tons 1;call " + almost + " 1 to 1 waste 1;");
+                }
+            }
+        }
+        String[] statements = {"slices;", "slab;", "band 0 rate 1;", "rebate 2 percent 1;", "waste fixed 1 free 1 price 1;",
+            "lay free 1 rate 1;", "ship b tons 1;", "call a 1 to 1 waste 1;"};
+        for (String statement : statements) {
+            String text = "ship a tons 1;" + statement;
+            Check.accepted(text);
+            for (int i = 14; i < text.length(); i++) {
+                int start = i;
+                while (Character.isLetter(text.charAt(start - 1))) {
+                    start--;
+                }
+                boolean name = text.charAt(start - 1) == ' ' && !Character.isLetter(text.charAt(start + 1));
+                if (Character.isLetter(text.charAt(i)) && !name) {
+                    Check.refused(withOtherLetter(text, i), 1, start);
+                }
+            }
+        }
+    }
+
+    private static String withOtherLetter(String text, int place) {
+        char other = text.charAt(place) == 'q' ? 'z' : 'q';
+        return text.substring(0, place) + other + text.substring(place + 1);
     }
 
     // "a call of a ship of an earlier statement"; code 3: "in a call a NAME that no ship has"
