@@ -27,7 +27,7 @@ final class CallTest {
     }
 
     private static void tons() {
-        PortDues x = Check.loaded(TEXT);
+        Dues x = Check.loaded(TEXT);
         Check.due("tons(0)", x.tons(0), 150);
         Check.due("tons(1)", x.tons(1), 99);
         for (int ship : Check.outside(0, 1)) {
@@ -36,7 +36,7 @@ final class CallTest {
     }
 
     private static void ranks() {
-        PortDues x = Check.loaded(TEXT);
+        Dues x = Check.loaded(TEXT);
         x.addCall(0, 359, 359, 0);
         x.addCall(0, 360, 360, 0);
         x.addCall(0, 10, 12, 0);
@@ -58,7 +58,7 @@ final class CallTest {
     }
 
     private static void callsOfAYear() {
-        PortDues x = Check.loaded(TEXT);
+        Dues x = Check.loaded(TEXT);
         x.addCall(0, 0, 0, 0);
         x.addCall(0, 359, 380, 0);
         x.addCall(0, 360, 360, 0);
@@ -78,7 +78,7 @@ final class CallTest {
     }
 
     private static void callValues() {
-        PortDues x = Check.loaded(TEXT + "call b 7 to 12 waste 40;");
+        Dues x = Check.loaded(TEXT + "call b 7 to 12 waste 40;");
         int[] due = {1, 7, 12, 40, 0, 1, 0, 0};
         for (int what = 0; what < due.length; what++) {
             Check.due("call(0, " + what + ")", x.call(0, what), due[what]);
@@ -101,7 +101,7 @@ final class CallTest {
     }
 
     private static void days() {
-        PortDues x = Check.loaded(TEXT + "call a 5 to 34 waste 0;call a 5 to 6 waste 0;call a 5 to 7 waste 0;");
+        Dues x = Check.loaded(TEXT + "call a 5 to 34 waste 0;call a 5 to 6 waste 0;call a 5 to 7 waste 0;");
         Check.due("lay days of 30 days", x.layDays(0), 0x3ffffffc);
         Check.due("lay days of 2 days", x.layDays(1), 0);
         Check.due("lay days of 3 days", x.layDays(2), 4);
@@ -137,7 +137,7 @@ final class CallTest {
     }
 
     private static void amounts() {
-        PortDues x = Check.loaded(TEXT + "call a 10 to 14 waste 12;call a 20 to 25 waste 0;call b 0 to 0 waste 10;");
+        Dues x = Check.loaded(TEXT + "call a 10 to 14 waste 12;call a 20 to 25 waste 0;call b 0 to 0 waste 10;");
         int[][] due = {{350, 0, 9, 21}, {350, -35, 5, 28}, {198, 0, 5, 0}};
         int[] totals = {380, 348, 203};
         for (int call = 0; call < 3; call++) {
@@ -178,7 +178,7 @@ final class CallTest {
     }
 
     private static void rebates() {
-        PortDues x = Check.loaded(TEXT);
+        Dues x = Check.loaded(TEXT);
         for (int i = 0; i < 5; i++) {
             x.addCall(0, 360 + i, 360 + i, 0);
         }
@@ -189,7 +189,7 @@ final class CallTest {
         Check.due("rebates(1, 1)", x.rebates(1, 1), 0);
         x.cancel(0);
         Check.due("rebates behind cancel", x.rebates(0, 1), -35 - 35 - 175);
-        PortDues y = Check.loaded(TEXT + "call a 3599 to 3599 waste 0;call a 3240 to 3240 waste 0;");
+        Dues y = Check.loaded(TEXT + "call a 3599 to 3599 waste 0;call a 3240 to 3240 waste 0;");
         Check.due("rebates(0, 9), by the first call", y.rebates(0, 9), -35);
         for (int ship : Check.outside(0, 1)) {
             Check.dueThrow("rebates(" + ship + ", 10)", Check.INDEX, () -> x.rebates(ship, 10));
@@ -200,7 +200,7 @@ final class CallTest {
     }
 
     private static void quote() {
-        PortDues x = Check.loaded(TEXT + "call a 10 to 14 waste 12;call a 20 to 20 waste 0;");
+        Dues x = Check.loaded(TEXT + "call a 10 to 14 waste 12;call a 20 to 20 waste 0;");
         Check.due("quote behind both", x.quote(0, 21, 21, 0), 320);
         Check.due("quote on the day of the first", x.quote(0, 10, 14, 12), 350 - 35 + 9 + 21);
         Check.due("quote before both", x.quote(0, 9, 38, 999), 350 + 5 + 2 * 989 + 28 * 7);
@@ -221,7 +221,7 @@ final class CallTest {
         int of(int ship, int first, int last, int waste);
     }
 
-    private static void dueStay(PortDues x, String name, Stay stay) {
+    private static void dueStay(Dues x, String name, Stay stay) {
         for (int ship : Check.outside(0, 1)) {
             Check.dueThrow(name + " of ship " + ship, Check.INDEX, () -> stay.of(ship, -1, 0, 1000));
         }
@@ -237,7 +237,7 @@ final class CallTest {
     }
 
     private static void callsToRebate() {
-        PortDues x = Check.loaded(TEXT + "call a 10 to 14 waste 12;call a 20 to 20 waste 0;call a 15 to 15 waste 0;");
+        Dues x = Check.loaded(TEXT + "call a 10 to 14 waste 12;call a 20 to 20 waste 0;call a 15 to 15 waste 0;");
         Check.due("from rank 3 to rank 4", x.callsToRebate(0, 0), 1);
         Check.due("without a call", x.callsToRebate(0, 5), 2);
         x.cancel(2);
@@ -258,7 +258,7 @@ final class CallTest {
         x.setPercent(1, 0);
         Check.due("all are 0", x.callsToRebate(0, 7), PortDues.NONE);
         Check.due("in the last year", Check.loaded(TEXT).callsToRebate(0, 9), 2);
-        PortDues far = Check.loaded("rebate 99 percent 1;ship a tons 1;");
+        Dues far = Check.loaded("rebate 99 percent 1;ship a tons 1;");
         Check.due("the 99th call", far.callsToRebate(0, 0), 99);
         Check.due("without rebates", Check.loaded("ship a tons 1;").callsToRebate(0, 0), PortDues.NONE);
         for (int ship : Check.outside(0, 1)) {
@@ -270,7 +270,7 @@ final class CallTest {
     }
 
     private static void worth() {
-        PortDues x = Check.loaded(TEXT + "call a 10 to 14 waste 12;call a 20 to 20 waste 0;call b 3 to 3 waste 0;"
+        Dues x = Check.loaded(TEXT + "call a 10 to 14 waste 12;call a 20 to 20 waste 0;call b 3 to 3 waste 0;"
                 + "call a 400 to 400 waste 0;");
         Check.due("worth of the first of two", x.worth(0), 350 + 9 + 21 - 35);
         Check.due("worth of the second one", x.worth(1), 320);
@@ -285,7 +285,7 @@ final class CallTest {
         Check.due("worth of what is left", x.worth(0), 350 + 9 + 14);
         x.bill(0);
         Check.due("worth of a billed call", x.worth(0), 350 + 9 + 14);
-        PortDues y = Check.loaded("band 0 rate 1;rebate 3 percent 50;rebate 4 percent 100;ship a tons 10;");
+        Dues y = Check.loaded("band 0 rate 1;rebate 3 percent 50;rebate 4 percent 100;ship a tons 10;");
         for (int i = 0; i < 4; i++) {
             y.addCall(0, i, i, 0);
         }
@@ -298,7 +298,7 @@ final class CallTest {
     }
 
     private static void busiestYear() {
-        PortDues x = Check.loaded(TEXT);
+        Dues x = Check.loaded(TEXT);
         Check.due("without calls", x.busiestYear(0), 0);
         x.addCall(0, 3599, 3599, 0);
         Check.due("one call", x.busiestYear(0), 9);
@@ -317,7 +317,7 @@ final class CallTest {
     }
 
     private static void addCall() {
-        PortDues x = Check.loaded(TEXT + "call a 10 to 14 waste 12;");
+        Dues x = Check.loaded(TEXT + "call a 10 to 14 waste 12;");
         Check.due("addCall", x.addCall(1, 3599, 3628, 999), 1);
         int[] due = {1, 3599, 3628, 999, 0, 1, 0, 0};
         for (int what = 0; what < due.length; what++) {
@@ -338,7 +338,7 @@ final class CallTest {
     }
 
     private static void cancel() {
-        PortDues x = Check.loaded(TEXT + "call a 10 to 14 waste 12;call a 400 to 400 waste 0;call b 3 to 3 waste 0;"
+        Dues x = Check.loaded(TEXT + "call a 10 to 14 waste 12;call a 400 to 400 waste 0;call b 3 to 3 waste 0;"
                 + "call a 401 to 404 waste 0;");
         Check.due("cancel(1)", x.cancel(1), 2);
         Check.due("it is cancelled", x.call(1, 4), 1);
@@ -360,7 +360,7 @@ final class CallTest {
     }
 
     private static void setWaste() {
-        PortDues x = Check.loaded(TEXT + "call a 10 to 14 waste 12;");
+        Dues x = Check.loaded(TEXT + "call a 10 to 14 waste 12;");
         Check.due("setWaste(0, 999)", x.setWaste(0, 999), 12);
         Check.due("its waste", x.call(0, 3), 999);
         Check.due("its fee", x.amount(0, 2), 5 + 2 * 989);
@@ -376,7 +376,7 @@ final class CallTest {
     }
 
     private static void setTons() {
-        PortDues x = Check.loaded(TEXT + "call a 10 to 14 waste 12;");
+        Dues x = Check.loaded(TEXT + "call a 10 to 14 waste 12;");
         Check.due("setTons(0, 9999)", x.setTons(0, 9999), 150);
         Check.due("its tonnage", x.tons(0), 9999);
         Check.due("its dues", x.amount(0, 0), 200 + 3 * 9899);
@@ -391,7 +391,7 @@ final class CallTest {
     }
 
     private static void bestDay() {
-        PortDues x = Check.loaded(TEXT + "call a 10 to 14 waste 12;call a 20 to 20 waste 0;call a 730 to 730 waste 0;");
+        Dues x = Check.loaded(TEXT + "call a 10 to 14 waste 12;call a 20 to 20 waste 0;call a 730 to 730 waste 0;");
         Check.due("all are the same", x.bestDay(0, 5, 104, 1, 0), 5);
         Check.due("the year with calls", x.bestDay(0, 355, 365, 1, 0), 355);
         Check.due("the year behind it has calls", x.bestDay(0, 715, 725, 30, 999), 720);
@@ -407,7 +407,7 @@ final class CallTest {
         Check.due("the last day", x.bestDay(0, 3599, 3599, 30, 0), 3599);
         Check.due("one day", x.bestDay(0, 7, 7, 1, 0), 7);
         Check.due("from day 0", x.bestDay(0, 0, 99, 1, 0), 0);
-        PortDues y = Check.loaded(TEXT + "call a 730 to 730 waste 0;");
+        Dues y = Check.loaded(TEXT + "call a 730 to 730 waste 0;");
         Check.due("the day to which it asks", y.bestDay(0, 700, 720, 1, 0), 720);
         Check.due("the day before is not enough", y.bestDay(0, 700, 719, 1, 0), 700);
         Check.due("the second day", y.bestDay(0, 719, 730, 1, 0), 720);

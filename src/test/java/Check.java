@@ -85,7 +85,7 @@ final class Check {
     // ---- texts
 
     /** Puts a text into the empty input buffer. */
-    static void put(PortDues x, String text) {
+    static void put(Dues x, String text) {
         byte[] bytes = text.getBytes(java.nio.charset.StandardCharsets.ISO_8859_1);
         int[] words = new int[(bytes.length + 19) / 20 * 5];
         for (int i = 0; i < bytes.length; i++) {
@@ -97,25 +97,25 @@ final class Check {
         x.truncate(bytes.length);
     }
 
-    static int load(PortDues x, String text) {
+    static int load(Dues x, String text) {
         put(x, text);
         return x.load();
     }
 
-    static int find(PortDues x, String name) {
+    static int find(Dues x, String name) {
         put(x, name);
         return x.find();
     }
 
-    static PortDues loaded(String text) {
-        PortDues x = new PortDues();
+    static Dues loaded(String text) {
+        Dues x = new Dues();
         if (load(x, text) == PortDues.PARSE_ERROR) {
             report("the text of a test has the error " + x.errorCode() + " at " + x.errorPosition() + ": " + text);
         }
         return x;
     }
 
-    static String output(PortDues x, int length) {
+    static String output(Dues x, int length) {
         StringBuilder text = new StringBuilder();
         for (int i = 0; i < length; i++) {
             text.append((char) x.outputByte(i));
@@ -123,26 +123,26 @@ final class Check {
         return text.toString();
     }
 
-    static String statement(PortDues x, int ship) {
+    static String statement(Dues x, int ship) {
         return output(x, x.writeStatement(ship));
     }
 
-    static String invoiceSheet(PortDues x, int invoice) {
+    static String invoiceSheet(Dues x, int invoice) {
         return output(x, x.writeInvoice(invoice));
     }
 
-    static String tariffSheet(PortDues x, int version) {
+    static String tariffSheet(Dues x, int version) {
         return output(x, x.writeTariff(version));
     }
 
     // ---- the whole state, to see that nothing has changed
 
-    static String state(PortDues x) {
+    static String state(Dues x) {
         return x.undoCount() + " " + x.errorCode() + " " + x.errorPosition() + " " + rows(x);
     }
 
     /** All that undo() restores. */
-    static String rows(PortDues x) {
+    static String rows(Dues x) {
         List<Long> values = new ArrayList<>();
         for (int what = 0; what <= 8; what++) {
             values.add((long) x.count(what));
@@ -176,24 +176,31 @@ final class Check {
             }
         }
         StringBuilder text = new StringBuilder(values.toString());
-        for (int version = 0; version <= x.count(4); version++) {
-            text.append(tariffSheet(x, version));
+        // The first version and the last two ones stand for all: a sheet takes a call for each of its bytes.
+        int last = x.count(4);
+        for (int version = 0; version <= last; version++) {
+            if (version == 0 || version > last - 2) {
+                text.append(tariffSheet(x, version));
+            }
         }
         return text.toString();
     }
 
     /** The call throws that exception, and nothing changes. */
-    static void dueRefused(PortDues x, String what, String exception, Action action) {
+    static void dueRefused(Dues x, String what, String exception, Action action) {
         String before = state(x);
+        x.tryOut();
         dueThrow(what, exception, action);
+        x.endOfTrying();
         due("the state behind " + what, state(x), before);
+        x.forgetTried();
     }
 
     /**
      * All that an object answers, both buffers and what undo() brings back included. The object is
      * used up by it.
      */
-    static String whole(PortDues x) {
+    static String whole(Dues x) {
         StringBuilder text = new StringBuilder("output " + rest(x) + "\ninput " + inputLength(x) + "\n" + state(x));
         text.append("\nload ").append(x.load()).append(' ').append(state(x));
         while (x.undoCount() > 0) {
@@ -203,7 +210,7 @@ final class Check {
     }
 
     /** What stands in the output buffer, whoever wrote it. */
-    static String rest(PortDues x) {
+    static String rest(Dues x) {
         StringBuilder text = new StringBuilder();
         while (thrownBy(() -> x.outputByte(text.length())).equals("nothing")) {
             text.append((char) x.outputByte(text.length()));
@@ -211,23 +218,27 @@ final class Check {
         return text.toString();
     }
 
-    /** truncate() to more than the length throws, to the length itself changes nothing. */
-    static int inputLength(PortDues x) {
+    /** append() answers the length; if there is no room for it, truncate() to more than the length throws. */
+    static int inputLength(Dues x) {
         int length = 800;
-        while (length > 0 && !truncates(x, length)) {
+        while (length > 780 && !truncates(x, length)) {
             length--;
+        }
+        if (length == 780) {
+            length = x.append(0, 0, 0, 0, 0) - 20;
+            x.truncate(length);
         }
         return length;
     }
 
-    private static boolean truncates(PortDues x, int length) {
+    private static boolean truncates(Dues x, int length) {
         return thrownBy(() -> x.truncate(length)).equals("nothing");
     }
 
     // ---- texts that are parsed
 
     static void accepted(String text) {
-        PortDues x = new PortDues();
+        Dues x = new Dues();
         int ships = load(x, text);
         due("load of " + text, ships >= 0, true);
         due("errorCode of " + text, x.errorCode(), 0);
@@ -236,7 +247,7 @@ final class Check {
     }
 
     static void refused(String text, int code, int position) {
-        PortDues x = new PortDues();
+        Dues x = new Dues();
         due("load of " + text, load(x, text), PortDues.PARSE_ERROR);
         due("errorCode of " + text, x.errorCode(), code);
         due("errorPosition of " + text, x.errorPosition(), position);

@@ -40,7 +40,7 @@ final class EdgeCallTest {
     private static void yearOfTheFirstDay() {
         for (int year = 0; year <= 9; year++) {
             int start = year * 360;
-            PortDues x = Check.loaded(TEXT);
+            Dues x = Check.loaded(TEXT);
             x.addCall(0, start, start + 29, 0);
             x.addCall(0, start + 359, start + 388, 0);
             for (int other = 0; other <= 9; other++) {
@@ -60,13 +60,13 @@ final class EdgeCallTest {
 
     // "that ... have an earlier first day, or the same one and a lower number"
     private static void ranksOfTheSameDay() {
-        PortDues x = Check.loaded(TEXT);
+        Dues x = Check.loaded(TEXT);
         for (int i = 0; i < 40; i++) {
             x.addCall(0, 359, 359, 0);
             Check.due("the rank of the last one", x.call(i, 5), i + 1);
             Check.due("the rank of the first one", x.call(0, 5), 1);
         }
-        PortDues y = Check.loaded(TEXT);
+        Dues y = Check.loaded(TEXT);
         for (int i = 0; i < 40; i++) {
             y.addCall(0, 39 - i, 68 - i, 0);
             Check.due("the rank of the earliest one", y.call(i, 5), 1);
@@ -76,7 +76,7 @@ final class EdgeCallTest {
 
     // "the number of other calls of its ship in its year that are not cancelled"
     private static void otherCallsThatCount() {
-        PortDues x = Check.loaded(TEXT);
+        Dues x = Check.loaded(TEXT);
         x.addCall(0, 400, 400, 0);
         x.addCall(1, 399, 399, 0);
         Check.due("another ship", x.call(0, 5), 1);
@@ -96,7 +96,7 @@ final class EdgeCallTest {
 
     // "Its rebate is the percentage of the last rebate whose number is not above its rank, 0 if there is none"
     private static void rebateOfARank() {
-        PortDues x = Check.loaded(TEXT);
+        Dues x = Check.loaded(TEXT);
         int[] percents = {0, 10, 10, 50, 20, 20};
         for (int i = 0; i < percents.length; i++) {
             Check.due("quote at rank " + (i + 1), x.quote(0, 0, 0, 0), 200 - 2 * percents[i] + 5);
@@ -104,9 +104,9 @@ final class EdgeCallTest {
             Check.due("percentage at rank " + (i + 1), x.call(i, 6), percents[i]);
             Check.due("amount at rank " + (i + 1), x.amount(i, 1), -2 * percents[i]);
         }
-        PortDues none = Check.loaded("band 0 rate 2;ship a tons 1;call a 0 to 0 waste 0;call a 0 to 0 waste 0;");
+        Dues none = Check.loaded("band 0 rate 2;ship a tons 1;call a 0 to 0 waste 0;call a 0 to 0 waste 0;");
         Check.due("percentage without rebates", none.call(1, 6), 0);
-        PortDues last = Check.loaded("band 0 rate 2;rebate 40 percent 100;rebate 41 percent 50;ship a tons 1;");
+        Dues last = Check.loaded("band 0 rate 2;rebate 40 percent 100;rebate 41 percent 50;ship a tons 1;");
         for (int i = 0; i < 40; i++) {
             last.addCall(0, 1, 1, 0);
             Check.due("percentage of call " + i, last.call(i, 6), i == 39 ? 100 : 0);
@@ -117,7 +117,7 @@ final class EdgeCallTest {
     // "a cancelled call has the rank 0 and the rebate 0"; callTotal: "0 for a cancelled call";
     // amount: "lines of a cancelled call, too (its rebate is 0)"
     private static void cancelledCalls() {
-        PortDues x = Check.loaded(TEXT + "call a 0 to 4 waste 11;call a 1 to 5 waste 12;");
+        Dues x = Check.loaded(TEXT + "call a 0 to 4 waste 11;call a 1 to 5 waste 12;");
         Check.due("the rank before", x.call(1, 5), 2);
         x.dispute(1, 2);
         x.cancel(1);
@@ -143,7 +143,7 @@ final class EdgeCallTest {
 
     // layDays, pending, upheld, billedDays, billable: "the set of its days"
     private static void daysOfOneCall() {
-        PortDues x = Check.loaded("lay free 0 rate 1;ship a tons 1;call a 0 to 29 waste 0;call a 0 to 0 waste 0;");
+        Dues x = Check.loaded("lay free 0 rate 1;ship a tons 1;call a 0 to 29 waste 0;call a 0 to 0 waste 0;");
         int all = 0x3fffffff;
         dueDays(x, 0, all, 0, 0, 0, all);
         dueDays(x, 1, 1, 0, 0, 0, 1);
@@ -165,7 +165,7 @@ final class EdgeCallTest {
         dueDays(x, 1, 0, 0, 0, 0, 0);
     }
 
-    private static void dueDays(PortDues x, int call, int lay, int pending, int upheld, int billed, int billable) {
+    private static void dueDays(Dues x, int call, int lay, int pending, int upheld, int billed, int billable) {
         Check.due("layDays(" + call + ")", x.layDays(call), lay);
         Check.due("pending(" + call + ")", x.pending(call), pending);
         Check.due("upheld(" + call + ")", x.upheld(call), upheld);
@@ -175,7 +175,7 @@ final class EdgeCallTest {
 
     // amount: "this line if nothing of the call was billed: for line 3 all lay days that are neither pending nor upheld"
     private static void amountsIfNothingWasBilled() {
-        PortDues x = Check.loaded(TEXT + "call a 0 to 4 waste 11;");
+        Dues x = Check.loaded(TEXT + "call a 0 to 4 waste 11;");
         x.bill(0);
         x.addCall(0, 0, 0, 0);
         int[] due = {200, 0, 7, 21};
@@ -199,7 +199,7 @@ final class EdgeCallTest {
 
     // rebates: "the sum of line 1 over all calls of the ship in this year by amount()"
     private static void rebatesOfAYear() {
-        PortDues x = Check.loaded("band 0 rate 999;rebate 2 percent 100;ship a tons 9999;ship b tons 9999;");
+        Dues x = Check.loaded("band 0 rate 999;rebate 2 percent 100;ship a tons 9999;ship b tons 9999;");
         for (int year = 0; year <= 9; year++) {
             Check.due("rebates of no call", x.rebates(0, year), 0);
         }
@@ -208,7 +208,7 @@ final class EdgeCallTest {
             Check.due("rebates above an int", x.rebates(0, 9), -9989001L * i);
         }
         // The first number need not have the first rank.
-        PortDues y = Check.loaded(TEXT + "call a 719 to 719 waste 0;call a 360 to 360 waste 0;");
+        Dues y = Check.loaded(TEXT + "call a 719 to 719 waste 0;call a 360 to 360 waste 0;");
         Check.due("the rebate of call 0", y.rebates(0, 1), -20);
         Check.due("rebates of the year before", x.rebates(0, 8), 0);
         Check.due("rebates of another ship", x.rebates(1, 9), 0);
@@ -221,7 +221,7 @@ final class EdgeCallTest {
 
     // quote: "first: 0 to 3599", "last: from first to 29 days later", "waste: 0 to 999"
     private static void quotesAtTheEdges() {
-        PortDues x = Check.loaded(TEXT);
+        Dues x = Check.loaded(TEXT);
         for (int first : new int[] {0, 1, 3598, 3599}) {
             Check.due("one day", x.quote(0, first, first, 0), 205);
             Check.due("two days", x.quote(0, first, first + 1, 0), 205);
@@ -241,7 +241,7 @@ final class EdgeCallTest {
 
     // quote: "what callTotal() of such a call would be now, if it was added (also if there is no room for it)"
     private static void quoteWithoutRoom() {
-        PortDues x = Check.loaded(TEXT);
+        Dues x = Check.loaded(TEXT);
         for (int i = 0; i < 40; i++) {
             int first = i * 37 % 360;
             int quote = x.quote(0, first, first + i % 30, i * 20);
@@ -259,7 +259,7 @@ final class EdgeCallTest {
     // callsToRebate: "until one of them has a greater rebate than its last call of this year (than 0 if it has none);
     // NONE if no number is enough"
     private static void callsToRebateEdges() {
-        PortDues x = Check.loaded("rebate 2 percent 0;rebate 3 percent 10;rebate 5 percent 10;rebate 6 percent 11;"
+        Dues x = Check.loaded("rebate 2 percent 0;rebate 3 percent 10;rebate 5 percent 10;rebate 6 percent 11;"
                 + "ship a tons 1;");
         int[] due = {3, 2, 1, 3, 2, 1, PortDues.NONE, PortDues.NONE};
         for (int calls = 0; calls < due.length; calls++) {
@@ -269,7 +269,7 @@ final class EdgeCallTest {
         }
         Check.due("in the last year", x.callsToRebate(0, 9), 3);
         // The rebate falls before it grows: the last call has less than those before it.
-        PortDues y = Check.loaded("rebate 2 percent 50;rebate 3 percent 5;rebate 6 percent 6;rebate 7 percent 100;"
+        Dues y = Check.loaded("rebate 2 percent 50;rebate 3 percent 5;rebate 6 percent 6;rebate 7 percent 100;"
                 + "ship a tons 1;");
         int[] falls = {2, 1, 5, 3, 2, 1, 1, PortDues.NONE};
         for (int calls = 0; calls < falls.length; calls++) {
@@ -279,15 +279,15 @@ final class EdgeCallTest {
         y.cancel(0);
         y.cancel(7);
         Check.due("cancelled ones are none", y.callsToRebate(0, 3), 1);
-        PortDues none = Check.loaded("ship a tons 1;");
+        Dues none = Check.loaded("ship a tons 1;");
         Check.due("without rebates", none.callsToRebate(0, 0), PortDues.NONE);
-        PortDues zero = Check.loaded("rebate 2 percent 0;rebate 99 percent 0;ship a tons 1;");
+        Dues zero = Check.loaded("rebate 2 percent 0;rebate 99 percent 0;ship a tons 1;");
         Check.due("rebates of 0", zero.callsToRebate(0, 9), PortDues.NONE);
     }
 
     // callsToRebate: "the limit of 40 calls does not matter"
     private static void callsToRebateBeyondTheLimit() {
-        PortDues x = Check.loaded("rebate 41 percent 1;rebate 99 percent 2;ship a tons 1;ship b tons 1;");
+        Dues x = Check.loaded("rebate 41 percent 1;rebate 99 percent 2;ship a tons 1;ship b tons 1;");
         for (int calls = 0; calls <= 40; calls++) {
             Check.due("with " + calls + " calls", x.callsToRebate(0, 0), 41 - calls);
             if (calls < 40) {
@@ -304,7 +304,7 @@ final class EdgeCallTest {
 
     // worth: "by how much the sum of callTotal() over all calls of its ship would be less if it was cancelled"
     private static void worthEdges() {
-        PortDues x = Check.loaded(TEXT);
+        Dues x = Check.loaded(TEXT);
         for (int i = 0; i < 7; i++) {
             x.addCall(0, 359, 359 + i, i * 4);
             x.addCall(1, 359, 359, 0);
@@ -323,13 +323,13 @@ final class EdgeCallTest {
         x.bill(0);
         Check.dueThrow("cancel of a billed call", Check.STATE, () -> x.cancel(0));
         Check.due("worth of a call that cannot be cancelled", x.worth(0), before);
-        PortDues one = Check.loaded(TEXT + "call a 0 to 0 waste 0;");
+        Dues one = Check.loaded(TEXT + "call a 0 to 0 waste 0;");
         Check.due("the only call", one.worth(0), 205);
-        PortDues free = Check.loaded("ship a tons 1;call a 0 to 29 waste 999;");
+        Dues free = Check.loaded("ship a tons 1;call a 0 to 29 waste 999;");
         Check.due("a call for nothing", free.worth(0), 0);
     }
 
-    private static long sumOfTotals(PortDues x, int ship) {
+    private static long sumOfTotals(Dues x, int ship) {
         long sum = 0;
         for (int call = 0; call < x.count(1); call++) {
             sum += x.call(call, 0) == ship ? x.callTotal(call) : 0;
@@ -339,7 +339,7 @@ final class EdgeCallTest {
 
     // busiestYear: "the most calls that are not cancelled, the earliest one of several"
     private static void busiestYearEdges() {
-        PortDues x = Check.loaded(TEXT);
+        Dues x = Check.loaded(TEXT);
         Check.due("without calls", x.busiestYear(0), 0);
         for (int year = 9; year >= 0; year--) {
             x.addCall(0, year * 360 + 359, year * 360 + 388, 0);
@@ -356,7 +356,7 @@ final class EdgeCallTest {
 
     // addCall: "IllegalStateException if there are 40 calls"
     private static void fortyCalls() {
-        PortDues x = Check.loaded(TEXT + "call a 0 to 0 waste 0;");
+        Dues x = Check.loaded(TEXT + "call a 0 to 0 waste 0;");
         for (int i = 1; i < 40; i++) {
             Check.due("addCall", x.addCall(i % 2, i, i, i), i);
         }
@@ -380,7 +380,7 @@ final class EdgeCallTest {
     // addCall: "first: 0 to 3599", "last: from first to 29 days later", "waste: 0 to 999"
     private static void leastAndGreatestCalls() {
         int[][] calls = {{0, 0, 0}, {0, 29, 999}, {3599, 3599, 0}, {3599, 3628, 999}};
-        PortDues x = Check.loaded(TEXT);
+        Dues x = Check.loaded(TEXT);
         for (int i = 0; i < calls.length; i++) {
             int[] c = calls[i];
             Check.due("addCall", x.addCall(1, c[0], c[1], c[2]), i);
@@ -398,7 +398,7 @@ final class EdgeCallTest {
     // cancel: "IllegalStateException if it is cancelled, or one of its lines 0 to 2 or of its days is billed"
     private static void cancelNotBilled() {
         for (int credited = 0; credited <= 15; credited++) {
-            PortDues x = Check.loaded(TEXT + "call a 0 to 4 waste 11;");
+            Dues x = Check.loaded(TEXT + "call a 0 to 4 waste 11;");
             x.bill(0);
             if (credited > 0) {
                 x.credit(0, credited);
@@ -409,13 +409,13 @@ final class EdgeCallTest {
                 Check.dueRefused(x, "cancel with the lines " + credited + " credited", Check.STATE, () -> x.cancel(0));
             }
         }
-        PortDues y = Check.loaded(TEXT + "call a 0 to 4 waste 11;call a 0 to 4 waste 11;");
+        Dues y = Check.loaded(TEXT + "call a 0 to 4 waste 11;call a 0 to 4 waste 11;");
         y.bill(1);
         y.dispute(0, 2);
         Check.due("the lines of another call, a pending day", y.cancel(0), 1);
         Check.dueRefused(y, "cancel once more", Check.STATE, () -> y.cancel(0));
         // One of several invoices is enough.
-        PortDues z = Check.loaded(TEXT + "call a 0 to 4 waste 11;");
+        Dues z = Check.loaded(TEXT + "call a 0 to 4 waste 11;");
         z.bill(0);
         z.credit(0, 15);
         z.bill(0);
@@ -424,7 +424,7 @@ final class EdgeCallTest {
 
     // cancel: "Returns how many calls that are not cancelled the ship has left."
     private static void cancelLeft() {
-        PortDues x = Check.loaded(TEXT);
+        Dues x = Check.loaded(TEXT);
         for (int i = 0; i < 40; i++) {
             x.addCall(i % 2, i * 90, i * 90, 0);
         }
@@ -437,7 +437,7 @@ final class EdgeCallTest {
 
     // setWaste: "waste: 0 to 999", "Returns the previous waste."; setTons: "tons: 1 to 9999", "Returns the previous tonnage."
     private static void wasteAndTons() {
-        PortDues x = Check.loaded(TEXT + "call b 0 to 0 waste 999;");
+        Dues x = Check.loaded(TEXT + "call b 0 to 0 waste 999;");
         int[] wastes = {999, 0, 999, 10, 11, 11};
         for (int i = 1; i < wastes.length; i++) {
             Check.due("setWaste", x.setWaste(0, wastes[i]), wastes[i - 1]);
@@ -458,7 +458,7 @@ final class EdgeCallTest {
 
     // bestDay: "Returns the first day of the call, from from to to; the earliest one of several."
     private static void bestDayEarliest() {
-        PortDues x = Check.loaded(TEXT);
+        Dues x = Check.loaded(TEXT);
         for (int[] range : new int[][] {{0, 0}, {0, 99}, {5, 5}, {261, 359}, {300, 399}, {3500, 3599}, {3599, 3599}}) {
             Check.due("all days are the same", x.bestDay(0, range[0], range[1], 30, 999), range[0]);
         }
@@ -478,7 +478,7 @@ final class EdgeCallTest {
 
     // bestDay: "from: 0 to 3599", "to: from to from + 99, at most 3599", "days: 1 to 30", "waste: 0 to 999"
     private static void bestDayEdges() {
-        PortDues x = Check.loaded(TEXT + "call a 3400 to 3400 waste 0;");
+        Dues x = Check.loaded(TEXT + "call a 3400 to 3400 waste 0;");
         Check.due("from 0 to 99", x.bestDay(0, 0, 99, 1, 0), 0);
         Check.dueThrow("from 0 to 100", Check.ARGUMENT, () -> x.bestDay(0, 0, 100, 1, 0));
         Check.dueThrow("from 0 to -1", Check.ARGUMENT, () -> x.bestDay(0, 0, -1, 1, 0));
@@ -506,11 +506,11 @@ final class EdgeCallTest {
     // bestDay: "by which the sum of callTotal() over all its calls would be the least with it (ranks of other calls
     // can change by it; it does not matter whether there is room for it)"
     private static void bestDayOfTwoYears() {
-        PortDues x = Check.loaded(TEXT);
+        Dues x = Check.loaded(TEXT);
         int[] rebates = {0, 20, 20, 100, 40, 40};
         for (int before = 0; before < 6; before++) {
             for (int behind = 0; behind < 6; behind++) {
-                PortDues y = Check.loaded(TEXT);
+                Dues y = Check.loaded(TEXT);
                 for (int i = 0; i < before; i++) {
                     y.addCall(0, 340, 340, 0);
                 }
@@ -534,7 +534,7 @@ final class EdgeCallTest {
 
     // "Methods that ask what would be do not change anything."
     private static void askingChangesNothing() {
-        PortDues x = asked();
+        Dues x = asked();
         x.quote(0, 0, 29, 999);
         x.callsToRebate(0, 0);
         x.worth(0);
@@ -547,8 +547,8 @@ final class EdgeCallTest {
         Check.due("all behind the questions", Check.whole(x), Check.whole(asked()));
     }
 
-    private static PortDues asked() {
-        PortDues x = Check.loaded(TEXT + "call a 0 to 4 waste 11;call a 0 to 4 waste 11;call a 500 to 500 waste 0;");
+    private static Dues asked() {
+        Dues x = Check.loaded(TEXT + "call a 0 to 4 waste 11;call a 0 to 4 waste 11;call a 500 to 500 waste 0;");
         x.bill(0);
         x.setTons(0, 77);
         x.dispute(0, 3);

@@ -29,7 +29,7 @@ final class EdgeInvoiceTest {
         Check.finish();
     }
 
-    private static void dueLines(String what, PortDues x, int invoice, int... due) {
+    private static void dueLines(String what, Dues x, int invoice, int... due) {
         for (int line = 0; line < 4; line++) {
             Check.due(what + ": line(" + invoice + ", " + line + ")", x.line(invoice, line), due[line]);
         }
@@ -40,7 +40,7 @@ final class EdgeInvoiceTest {
         int[][] due = {{1, 99, 0}, {1, 100, -1}, {99, 1, 0}, {100, 1, -1}, {101, 1, -1}, {199, 1, -1}, {200, 1, -2},
             {3, 33, 0}, {3, 34, -1}, {9999, 0, 0}, {9999, 99, -9899}, {9999, 100, -9999}};
         for (int[] d : due) {
-            PortDues x = Check.loaded("band 0 rate 1;rebate 2 percent " + d[1] + ";ship a tons " + d[0]
+            Dues x = Check.loaded("band 0 rate 1;rebate 2 percent " + d[1] + ";ship a tons " + d[0]
                     + ";call a 0 to 0 waste 0;call a 0 to 0 waste 0;");
             String what = d[1] + " percent of " + d[0];
             Check.due(what, x.amount(1, 1), d[2]);
@@ -58,7 +58,7 @@ final class EdgeInvoiceTest {
     private static void everySetOfCreditedLines() {
         int[] lines = {100, 0, 7, 21};
         for (int set = 1; set <= 15; set++) {
-            PortDues x = Check.loaded(TEXT);
+            Dues x = Check.loaded(TEXT);
             x.bill(0);
             x.advance(set);
             int sum = 0;
@@ -100,7 +100,7 @@ final class EdgeInvoiceTest {
     // "the invoice does not have one of the lines, or it is credited"
     private static void creditedOnce() {
         for (int first = 1; first <= 15; first++) {
-            PortDues x = Check.loaded(TEXT);
+            Dues x = Check.loaded(TEXT);
             x.bill(0);
             x.credit(0, first);
             for (int second = 1; second <= 15; second++) {
@@ -123,7 +123,7 @@ final class EdgeInvoiceTest {
     // "Lines that an invoice does not have are 0."
     private static void linesThatItDoesNotHave() {
         for (int had = 1; had <= 15; had++) {
-            PortDues x = Check.loaded(TEXT);
+            Dues x = Check.loaded(TEXT);
             x.bill(0);
             x.credit(0, had);
             x.bill(0);
@@ -145,7 +145,7 @@ final class EdgeInvoiceTest {
             Check.due("its net", x.net(1), 0);
         }
         // A line can be 0 and still be there.
-        PortDues zero = Check.loaded("ship a tons 1;call a 0 to 0 waste 0;");
+        Dues zero = Check.loaded("ship a tons 1;call a 0 to 0 waste 0;");
         zero.bill(0);
         Check.due("lines that are 0", zero.invoice(0, 3), 7);
         Check.due("credit of them", zero.credit(0, 7), 0);
@@ -154,7 +154,7 @@ final class EdgeInvoiceTest {
 
     // "Billable days are lay days that are not billed, not pending and not upheld."
     private static void billableDays() {
-        PortDues x = Check.loaded(TEXT);
+        Dues x = Check.loaded(TEXT);
         x.dispute(0, 2);
         x.dispute(0, 3);
         x.dispute(0, 4);
@@ -182,7 +182,7 @@ final class EdgeInvoiceTest {
     // "a day of it is billed if it is among the days of an invoice whose line 3 is not credited"; "also one that is
     // billed (it stays billed)"
     private static void billedDaysOfSeveral() {
-        PortDues x = Check.loaded("lay free 29 rate 7;ship a tons 1;call a 0 to 29 waste 0;");
+        Dues x = Check.loaded("lay free 29 rate 7;ship a tons 1;call a 0 to 29 waste 0;");
         // The twentieth version is the last one: it has all the days that are left.
         for (int free = 29; free >= 10; free--) {
             if (free < 29) {
@@ -210,7 +210,7 @@ final class EdgeInvoiceTest {
 
     // bill: "the call is cancelled, all its lines 0 to 2 are billed and it has no billable days"
     private static void nothingToBill() {
-        PortDues x = Check.loaded(TEXT + "call b 0 to 1 waste 0;call b 0 to 2 waste 0;");
+        Dues x = Check.loaded(TEXT + "call b 0 to 1 waste 0;call b 0 to 2 waste 0;");
         x.cancel(2);
         Check.dueRefused(x, "bill of a cancelled call", Check.STATE, () -> x.bill(2));
         x.bill(1);
@@ -226,8 +226,8 @@ final class EdgeInvoiceTest {
     }
 
     /** 40 calls, each with one invoice; then 19 more of them for the new lay day. */
-    private static PortDues with59Invoices() {
-        PortDues x = Check.loaded(TARIFF + "ship a tons 100;ship b tons 9;");
+    private static Dues with59Invoices() {
+        Dues x = Check.loaded(TARIFF + "ship a tons 100;ship b tons 9;");
         for (int i = 0; i < 40; i++) {
             x.addCall(i < 38 ? 0 : 1, 3599, 3628, 0);
         }
@@ -242,7 +242,7 @@ final class EdgeInvoiceTest {
 
     // bill: "IllegalStateException if ... there are 60 invoices"; billAll: "for which bill() would not throw"
     private static void sixtyInvoices() {
-        PortDues x = with59Invoices();
+        Dues x = with59Invoices();
         Check.due("59 invoices", x.count(2), 59);
         Check.due("billAll where one has room", x.billAll(0), 1);
         Check.due("the lowest call that can be billed", x.invoice(59, 0), 19);
@@ -256,7 +256,7 @@ final class EdgeInvoiceTest {
             Check.dueThrow("writeInvoice(" + invoice + ")", Check.INDEX, () -> x.writeInvoice(invoice));
         }
         Check.due("net(59)", x.net(59), 3);
-        PortDues y = with59Invoices();
+        Dues y = with59Invoices();
         Check.due("bill of the last one", y.bill(39), 59);
         Check.dueRefused(y, "bill without room", Check.STATE, () -> y.bill(38));
         y.undo();
@@ -265,7 +265,7 @@ final class EdgeInvoiceTest {
 
     // "The net of an invoice is the sum of its lines that are not credited." Its lines, not the rebuilt ones.
     private static void linesAsTheyWereBilled() {
-        PortDues x = Check.loaded(TEXT + "call a 5 to 8 waste 30;");
+        Dues x = Check.loaded(TEXT + "call a 5 to 8 waste 30;");
         x.bill(0);
         x.bill(1);
         x.setTons(0, 9);
@@ -294,7 +294,7 @@ final class EdgeInvoiceTest {
 
     // billAll: "Returns how many were made." "in ascending order"
     private static void billAllOfNothing() {
-        PortDues x = Check.loaded(TEXT);
+        Dues x = Check.loaded(TEXT);
         Check.due("a ship without calls", x.billAll(1), 0);
         Check.due("one call", x.billAll(0), 1);
         Check.due("none is left", x.billAll(0), 0);
@@ -313,7 +313,7 @@ final class EdgeInvoiceTest {
 
     // credit: "IllegalStateException if ... there are 40 credit notes"
     private static void fortyNotes() {
-        PortDues x = with59Invoices();
+        Dues x = with59Invoices();
         for (int i = 0; i < 40; i++) {
             Check.due("credit", x.credit(i, 4), i);
         }
@@ -333,7 +333,7 @@ final class EdgeInvoiceTest {
 
     // "to each as much as its net or as there is left; the rest of the net is open"
     private static void netsAndOpen() {
-        PortDues x = Check.loaded(TEXT + "call a 5 to 5 waste 0;");
+        Dues x = Check.loaded(TEXT + "call a 5 to 5 waste 0;");
         x.bill(0);
         x.bill(1);
         int[] nets = {128, 95};
@@ -345,7 +345,7 @@ final class EdgeInvoiceTest {
             Check.due("balance at " + paid, x.balance(0), 223 - paid);
             x.pay(0, 1);
         }
-        PortDues least = Check.loaded("waste fixed 1 free 0 price 0;ship a tons 1;call a 0 to 0 waste 0;");
+        Dues least = Check.loaded("waste fixed 1 free 0 price 0;ship a tons 1;call a 0 to 0 waste 0;");
         least.bill(0);
         Check.due("open of a net of 1", least.open(0), 1);
         Check.due("oldestOpen with a net of 1", least.oldestOpen(0), 0);
@@ -361,7 +361,7 @@ final class EdgeInvoiceTest {
 
     // "plus the amounts by which nets of its invoices are below 0"
     private static void netsBelowZero() {
-        PortDues x = Check.loaded(TEXT + "call a 5 to 5 waste 0;call b 0 to 0 waste 0;call b 1 to 1 waste 0;");
+        Dues x = Check.loaded(TEXT + "call a 5 to 5 waste 0;call b 0 to 0 waste 0;call b 1 to 1 waste 0;");
         x.bill(1);
         x.bill(0);
         x.bill(2);
@@ -387,7 +387,7 @@ final class EdgeInvoiceTest {
 
     // "a sum that goes to its invoices with a net above 0, in ascending order"
     private static void openInAscendingOrder() {
-        PortDues x = Check.loaded("waste fixed 10 free 0 price 0;ship a tons 1;ship b tons 1;");
+        Dues x = Check.loaded("waste fixed 10 free 0 price 0;ship a tons 1;ship b tons 1;");
         for (int i = 0; i < 40; i++) {
             x.addCall(i % 2, 40 - i, 40 - i, 0);
         }
@@ -407,7 +407,7 @@ final class EdgeInvoiceTest {
 
     // pay: "amount: 1 to 1000000000"; "The balance of a ship is the sum of all nets minus its payments."
     private static void balances() {
-        PortDues x = Check.loaded(TEXT);
+        Dues x = Check.loaded(TEXT);
         for (int wrong : new int[] {0, -1, 1000000001, Integer.MIN_VALUE, Integer.MAX_VALUE}) {
             Check.dueRefused(x, "pay(0, " + wrong + ")", Check.ARGUMENT, () -> x.pay(0, wrong));
             Check.dueRefused(x, "pay(2, " + wrong + ")", Check.INDEX, () -> x.pay(2, wrong));

@@ -43,7 +43,7 @@ final class EdgeSheetTest {
             x.dispute(0, 4);
             x.settle(0, 4, true);
         });
-        PortDues x = billed();
+        Dues x = billed();
         x.setTons(0, 99);
         x.setTons(0, 100);
         x.setWaste(0, 12);
@@ -58,19 +58,19 @@ final class EdgeSheetTest {
         Check.due("another version is none of it", x.isStale(0), false);
     }
 
-    private static PortDues billed() {
-        PortDues x = Check.loaded(TARIFF + "ship a tons 100;call a 5 to 9 waste 11;");
+    private static Dues billed() {
+        Dues x = Check.loaded(TARIFF + "ship a tons 100;call a 5 to 9 waste 11;");
         x.bill(0);
         return x;
     }
 
     private interface Change {
-        void make(PortDues x);
+        void make(Dues x);
     }
 
     /** Only that line of invoice 0 differs; it is not stale any more as soon as that line is credited. */
     private static void stale(String what, int line, int now, Change change) {
-        PortDues x = billed();
+        Dues x = billed();
         change.make(x);
         Check.due(what + " is stale", x.isStale(0), true);
         Check.due("staleCount with " + what, x.staleCount(), 1);
@@ -85,7 +85,7 @@ final class EdgeSheetTest {
 
     // "lines 0 to 2 by the present tonnage, rank and waste"
     private static void rebuiltByRank() {
-        PortDues x = Check.loaded(TARIFF + "ship a tons 100;call a 359 to 359 waste 0;call a 360 to 360 waste 0;");
+        Dues x = Check.loaded(TARIFF + "ship a tons 100;call a 359 to 359 waste 0;call a 360 to 360 waste 0;");
         x.bill(0);
         x.bill(1);
         int[] rebates = {0, -10, -10, -50, -50};
@@ -106,7 +106,7 @@ final class EdgeSheetTest {
 
     // "line 3 for those of its days that are neither pending nor upheld"
     private static void rebuiltDays() {
-        PortDues x = Check.loaded("lay free 0 rate 9999;ship a tons 1;call a 0 to 29 waste 0;");
+        Dues x = Check.loaded("lay free 0 rate 9999;ship a tons 1;call a 0 to 29 waste 0;");
         x.bill(0);
         Check.due("all days", x.rebuilt(0, 3), 299970);
         // A later version has fewer lay days; those of the invoice stay.
@@ -128,8 +128,8 @@ final class EdgeSheetTest {
 
     // staleCount: "Returns how many invoices are stale."
     private static void staleCounts() {
-        Check.due("of an empty ledger", new PortDues().staleCount(), 0);
-        PortDues x = Check.loaded(TARIFF + "ship a tons 100;ship b tons 100;");
+        Check.due("of an empty ledger", new Dues().staleCount(), 0);
+        Dues x = Check.loaded(TARIFF + "ship a tons 100;ship b tons 100;");
         for (int i = 0; i < 40; i++) {
             x.addCall(i % 2, 0, 2, 0);
             x.bill(i);
@@ -150,7 +150,7 @@ final class EdgeSheetTest {
 
     // contested: "how many of its days are pending or upheld; 0 if its line 3 is credited"
     private static void contestedDays() {
-        PortDues x = Check.loaded("lay free 0 rate 0;ship a tons 1;call a 0 to 29 waste 0;call a 0 to 29 waste 0;");
+        Dues x = Check.loaded("lay free 0 rate 0;ship a tons 1;call a 0 to 29 waste 0;call a 0 to 29 waste 0;");
         x.dispute(0, 29);
         x.bill(0);
         x.bill(1);
@@ -171,7 +171,7 @@ final class EdgeSheetTest {
         x.bill(0);
         Check.due("an invoice of the day that is left", x.invoice(2, 5), 1 << 29);
         Check.due("contested of it", x.contested(2), 0);
-        PortDues none = Check.loaded("ship a tons 1;call a 0 to 29 waste 0;");
+        Dues none = Check.loaded("ship a tons 1;call a 0 to 29 waste 0;");
         none.bill(0);
         Check.due("an invoice without line 3", none.contested(0), 0);
     }
@@ -182,7 +182,7 @@ final class EdgeSheetTest {
         for (int[] range : ranges) {
             int least = range[0];
             int greatest = range[1] - 1;
-            PortDues x = Check.loaded("lay free " + least + " rate 1;ship a tons 1;call a 0 to " + greatest + " waste 0;");
+            Dues x = Check.loaded("lay free " + least + " rate 1;ship a tons 1;call a 0 to " + greatest + " waste 0;");
             for (int day : new int[] {least - 1, greatest + 1, -1, 30, 31, 32, 32 + least, 64 + least, least - 32,
                 Integer.MIN_VALUE, Integer.MIN_VALUE + least, Integer.MAX_VALUE}) {
                 Check.dueRefused(x, "dispute of day " + day, Check.ARGUMENT, () -> x.dispute(0, day));
@@ -192,7 +192,7 @@ final class EdgeSheetTest {
                 Check.due("dispute of the first lay day", x.dispute(0, least), 2);
             }
         }
-        PortDues none = Check.loaded("lay free 30 rate 1;ship a tons 1;call a 0 to 29 waste 0;");
+        Dues none = Check.loaded("lay free 30 rate 1;ship a tons 1;call a 0 to 29 waste 0;");
         for (int day = -1; day <= 30; day++) {
             int wrong = day;
             Check.dueRefused(none, "dispute of day " + day, Check.ARGUMENT, () -> none.dispute(0, wrong));
@@ -203,7 +203,7 @@ final class EdgeSheetTest {
 
     // dispute: "IllegalStateException if the day is pending or upheld, or the call is cancelled"
     private static void disputeOnce() {
-        PortDues x = Check.loaded("lay free 1 rate 1;ship a tons 1;call a 0 to 29 waste 0;call a 0 to 29 waste 0;");
+        Dues x = Check.loaded("lay free 1 rate 1;ship a tons 1;call a 0 to 29 waste 0;call a 0 to 29 waste 0;");
         for (int day = 1; day < 30; day++) {
             int same = day;
             Check.due("dispute", x.dispute(0, day), 1 + (day - 1) / 2);
@@ -221,7 +221,7 @@ final class EdgeSheetTest {
 
     // settle: "IllegalStateException if the day is not pending (also a number that is no day)"
     private static void settlePendingOnly() {
-        PortDues x = Check.loaded("lay free 0 rate 1;ship a tons 1;call a 0 to 29 waste 0;call a 0 to 9 waste 0;");
+        Dues x = Check.loaded("lay free 0 rate 1;ship a tons 1;call a 0 to 29 waste 0;call a 0 to 9 waste 0;");
         x.dispute(0, 0);
         x.dispute(0, 29);
         x.dispute(0, 5);
@@ -244,8 +244,8 @@ final class EdgeSheetTest {
 
     // settle: "false if it is rejected (it is as if it was never disputed then)"
     private static void settledAsNeverDisputed() {
-        PortDues x = Check.loaded(TEXT);
-        PortDues y = Check.loaded(TEXT);
+        Dues x = Check.loaded(TEXT);
+        Dues y = Check.loaded(TEXT);
         x.dispute(0, 4);
         x.settle(0, 4, false);
         Check.due("as never disputed", Check.rows(x), Check.rows(y));
@@ -257,7 +257,7 @@ final class EdgeSheetTest {
 
     // dispute and settle: "Returns how many of its days are pending then."
     private static void pendingDaysOfOneCall() {
-        PortDues x = Check.loaded("lay free 0 rate 1;ship a tons 1;ship b tons 1;call a 0 to 9 waste 0;"
+        Dues x = Check.loaded("lay free 0 rate 1;ship a tons 1;ship b tons 1;call a 0 to 9 waste 0;"
                 + "call a 0 to 9 waste 0;call b 0 to 9 waste 0;");
         Check.due("the first day of call 1", x.dispute(1, 0), 1);
         Check.due("its second day", x.dispute(1, 9), 2);
@@ -274,7 +274,7 @@ final class EdgeSheetTest {
 
     // advance: "days: 1 to 3600", "IllegalStateException if today would be above 99999"
     private static void advanceToTheLastDay() {
-        PortDues x = Check.loaded(TEXT);
+        Dues x = Check.loaded(TEXT);
         for (int wrong : new int[] {0, -1, 3601, Integer.MIN_VALUE, Integer.MAX_VALUE}) {
             Check.dueRefused(x, "advance(" + wrong + ")", Check.ARGUMENT, () -> x.advance(wrong));
         }
@@ -296,15 +296,15 @@ final class EdgeSheetTest {
         // "Today is day 0 at first and behind load()."
         Check.load(x, TEXT);
         Check.due("today behind load", x.count(5), 0);
-        Check.due("today at first", new PortDues().count(5), 0);
+        Check.due("today at first", new Dues().count(5), 0);
         x.undo();
         Check.due("today behind undo", x.count(5), 99999);
     }
 
     // overdue: "a date that is at least so many days before today", "days: 0 to 3599"
     private static void overdueByDays() {
-        Check.due("of an empty ledger", new PortDues().overdue(0), 0);
-        PortDues x = Check.loaded(TEXT);
+        Check.due("of an empty ledger", new Dues().overdue(0), 0);
+        Dues x = Check.loaded(TEXT);
         x.bill(0);
         Check.due("of today", x.overdue(0), 1);
         Check.due("of yesterday", x.overdue(1), 0);
@@ -336,7 +336,7 @@ final class EdgeSheetTest {
 
     // revenue: "the sum of this line over all invoices for calls of this year in which it is not credited"
     private static void revenueOfYears() {
-        PortDues x = Check.loaded(TARIFF + "ship a tons 100;ship b tons 100;call a 359 to 388 waste 0;call b 360 to 360 waste 0;"
+        Dues x = Check.loaded(TARIFF + "ship a tons 100;ship b tons 100;call a 359 to 388 waste 0;call b 360 to 360 waste 0;"
                 + "call a 3239 to 3239 waste 0;call b 3240 to 3240 waste 0;call a 3599 to 3628 waste 0;");
         for (int year = 0; year <= 9; year++) {
             Check.due("revenue without invoices", x.revenue(year, 0), 0);
@@ -361,7 +361,7 @@ final class EdgeSheetTest {
         for (int wrong : new int[] {-1, 4, Integer.MIN_VALUE, Integer.MAX_VALUE}) {
             Check.dueRefused(x, "revenue of line " + wrong, Check.ARGUMENT, () -> x.revenue(0, wrong));
         }
-        PortDues most = Check.loaded("band 0 rate 999;rebate 2 percent 100;ship a tons 9999;");
+        Dues most = Check.loaded("band 0 rate 999;rebate 2 percent 100;ship a tons 9999;");
         for (int i = 0; i < 40; i++) {
             most.addCall(0, 0, 0, 0);
         }
@@ -372,7 +372,7 @@ final class EdgeSheetTest {
 
     // writeStatement: "for each of its invoices, in ascending order, ...; its balance"; "Numbers below 0 have a minus sign."
     private static void statements() {
-        PortDues x = Check.loaded(TEXT + "call abcdef 0 to 0 waste 0;");
+        Dues x = Check.loaded(TEXT + "call abcdef 0 to 0 waste 0;");
         Check.due("without invoices", Check.statement(x, 1), "abcdef\n0\n");
         Check.due("its length", x.writeStatement(1), 9);
         x.bill(1);
@@ -394,7 +394,7 @@ final class EdgeSheetTest {
 
     // The longest output: 60 invoices of the greatest net, the greatest payments.
     private static void fullStatement() {
-        PortDues x = Check.loaded("band 0 rate 999;waste fixed 9999 free 0 price 999;lay free 1 rate 9999;"
+        Dues x = Check.loaded("band 0 rate 999;waste fixed 9999 free 0 price 999;lay free 1 rate 9999;"
                 + "ship abcdef tons 9999;");
         for (int i = 0; i < 40; i++) {
             x.addCall(0, 0, 29, 999);
@@ -425,7 +425,7 @@ final class EdgeSheetTest {
         String[] lines = {"dues 100\n", "rebate 0\n", "waste 7\n", "lay 21 days 2 3 4\n"};
         int[] amounts = {100, 0, 7, 21};
         for (int set = 1; set <= 15; set++) {
-            PortDues x = Check.loaded(TEXT);
+            Dues x = Check.loaded(TEXT);
             x.bill(0);
             x.credit(0, set);
             x.advance(3600);
@@ -448,7 +448,7 @@ final class EdgeSheetTest {
     // "for each day, in ascending order, a space and its number, with the byte ? behind it if it is pending, or the
     // byte - if it is upheld"
     private static void daysOfAnInvoice() {
-        PortDues x = Check.loaded("lay free 0 rate 9999;ship abcdef tons 1;");
+        Dues x = Check.loaded("lay free 0 rate 9999;ship abcdef tons 1;");
         for (int i = 0; i < 40; i++) {
             x.addCall(0, 0, 29, 0);
         }
@@ -479,7 +479,7 @@ final class EdgeSheetTest {
     // "then, if it is credited, a space and the word credited, else, if the rebuilt amount is another one, a space,
     // the word now, a space and that amount"
     private static void creditedOrNow() {
-        PortDues x = Check.loaded(TEXT);
+        Dues x = Check.loaded(TEXT);
         x.addCall(0, 0, 0, 0);
         x.bill(1);
         Check.due("nothing is another one", Check.invoiceSheet(x, 0),

@@ -42,12 +42,12 @@ final class EdgeTariffTest {
     // "Band k has the tonnage from its number up to that of the next band, without it; the last one has all above."
     // "the tonnage t itself lies in the band with t"; bandOf: "0 to 9999"
     private static void bandWithoutTheNext() {
-        PortDues x = Check.loaded(SIX);
+        Dues x = Check.loaded(SIX);
         int[][] due = {{0, 0}, {1, 1}, {2, 1}, {99, 1}, {100, 2}, {101, 3}, {102, 3}, {9997, 3}, {9998, 4}, {9999, 5}};
         for (int[] d : due) {
             Check.due("bandOf(" + d[0] + ")", x.bandOf(d[0]), d[1]);
         }
-        PortDues one = Check.loaded("band 0 rate 3;");
+        Dues one = Check.loaded("band 0 rate 3;");
         Check.due("bandOf(0) with one band", one.bandOf(0), 0);
         Check.due("bandOf(9999) with one band", one.bandOf(9999), 0);
     }
@@ -55,8 +55,8 @@ final class EdgeTariffTest {
     // "with slices, the sum over all bands of their rate times the tons that lie in them; with slab the rate of the
     // band in which the tonnage lies times the tonnage"; "Ton number i, from 0, lies in the band with i"
     private static void duesOfBothModes() {
-        PortDues slices = Check.loaded(SIX);
-        PortDues slab = Check.loaded("slab;" + SIX);
+        Dues slices = Check.loaded(SIX);
+        Dues slab = Check.loaded("slab;" + SIX);
         int sum = 0;
         for (int tons = 0; tons <= 9999; tons++) {
             Check.due("slices: dues(" + tons + ")", slices.dues(tons), sum);
@@ -68,7 +68,7 @@ final class EdgeTariffTest {
     // "There are no dues without bands."; bandOf: "NONE without bands"
     private static void noDuesWithoutBands() {
         for (String mode : new String[] {"slices;", "slab;"}) {
-            PortDues x = Check.loaded(mode + "rebate 2 percent 100;ship a tons 9999;call a 0 to 0 waste 0;"
+            Dues x = Check.loaded(mode + "rebate 2 percent 100;ship a tons 9999;call a 0 to 0 waste 0;"
                     + "call a 0 to 0 waste 0;");
             for (int tons : new int[] {0, 1, 9999}) {
                 Check.due(mode + "bandOf(" + tons + ")", x.bandOf(tons), PortDues.NONE);
@@ -86,7 +86,7 @@ final class EdgeTariffTest {
     // The greatest numbers of all: "its rate, 0 to 999", "its tonnage, 1 to 9999", "its percentage, 0 to 100"
     private static void greatestDues() {
         for (String mode : new String[] {"slices;", "slab;"}) {
-            PortDues x = Check.loaded(mode + "band 0 rate 999;rebate 2 percent 100;waste fixed 9999 free 0 price 999;"
+            Dues x = Check.loaded(mode + "band 0 rate 999;rebate 2 percent 100;waste fixed 9999 free 0 price 999;"
                     + "lay free 0 rate 9999;ship a tons 9999;call a 0 to 29 waste 999;call a 0 to 29 waste 999;");
             Check.due(mode + "dues", x.dues(9999), 9989001);
             Check.due(mode + "amount of the rebate", x.amount(1, 1), -9989001);
@@ -106,7 +106,7 @@ final class EdgeTariffTest {
     // tonsIn: "how many of the tons lie in this band, as with slices"
     private static void tonsWithinBands() {
         for (String mode : new String[] {"slices;", "slab;"}) {
-            PortDues x = Check.loaded(mode + SIX);
+            Dues x = Check.loaded(mode + SIX);
             int[] within = new int[BANDS.length];
             for (int tons = 0; tons <= 9999; tons++) {
                 if (tons < 103 || tons > 9996) {
@@ -122,7 +122,7 @@ final class EdgeTariffTest {
             Check.dueThrow(mode + "a wrong band goes first", Check.INDEX, () -> x.tonsIn(-1, -1));
         }
         Check.due("one band has all", Check.loaded("band 0 rate 0;").tonsIn(9999, 0), 9999);
-        PortDues y = Check.loaded("band 0 rate 1;band 5 rate 1;band 7 rate 1;");
+        Dues y = Check.loaded("band 0 rate 1;band 5 rate 1;band 7 rate 1;");
         int[][] due = {{0, 0, 0, 0}, {4, 4, 0, 0}, {5, 5, 0, 0}, {6, 5, 1, 0}, {7, 5, 2, 0}, {8, 5, 2, 1}, {9999, 5, 2, 9992}};
         for (int[] d : due) {
             for (int band = 0; band < 3; band++) {
@@ -136,23 +136,23 @@ final class EdgeTariffTest {
         int[][] due = {{0, 0, 7}, {0, 1, 10}, {0, 999, 7 + 3 * 999}, {500, 499, 7}, {500, 500, 7}, {500, 501, 10},
             {998, 998, 7}, {998, 999, 10}, {999, 0, 7}, {999, 999, 7}};
         for (int[] d : due) {
-            PortDues x = Check.loaded("waste fixed 7 free " + d[0] + " price 3;ship a tons 1;call a 0 to 0 waste " + d[1] + ";");
+            Dues x = Check.loaded("waste fixed 7 free " + d[0] + " price 3;ship a tons 1;call a 0 to 0 waste " + d[1] + ";");
             Check.due("wasteFee(" + d[1] + ") with free " + d[0], x.wasteFee(d[1]), d[2]);
             Check.due("amount with waste " + d[1] + " and free " + d[0], x.amount(0, 2), d[2]);
             Check.due("quote with waste " + d[1] + " and free " + d[0], x.quote(0, 0, 0, d[1]), d[2]);
         }
-        PortDues most = Check.loaded("waste fixed 9999 free 0 price 999;");
+        Dues most = Check.loaded("waste fixed 9999 free 0 price 999;");
         Check.due("the greatest fee", most.wasteFee(999), 9999 + 999 * 999);
-        Check.due("a fee without a statement", new PortDues().wasteFee(999), 0);
+        Check.due("a fee without a statement", new Dues().wasteFee(999), 0);
     }
 
     // count: "what: 0 ships; ... 8 pending days of all calls"
     private static void countsOfNothingAndOfAll() {
-        PortDues empty = new PortDues();
+        Dues empty = new Dues();
         for (int what = 0; what <= 8; what++) {
             Check.due("count(" + what + ") of an empty ledger", empty.count(what), 0);
         }
-        PortDues x = Check.loaded(SIX + REBATES + "lay free 0 rate 1;ship a tons 1;call a 0 to 29 waste 0;"
+        Dues x = Check.loaded(SIX + REBATES + "lay free 0 rate 1;ship a tons 1;call a 0 to 29 waste 0;"
                 + "call a 0 to 29 waste 0;");
         for (int day = 0; day < 30; day++) {
             x.dispute(0, day);
@@ -176,7 +176,7 @@ final class EdgeTariffTest {
 
     // band, rebate: "number of a band", "what: 0 ...; 1 ..."
     private static void numbersOfBandsAndRebates() {
-        PortDues x = Check.loaded(SIX + REBATES);
+        Dues x = Check.loaded(SIX + REBATES);
         for (int band = 0; band < 6; band++) {
             Check.due("band(" + band + ", 0)", x.band(band, 0), BANDS[band][0]);
             Check.due("band(" + band + ", 1)", x.band(band, 1), BANDS[band][1]);
@@ -198,7 +198,7 @@ final class EdgeTariffTest {
         int[][] due = {{0, 1, 1}, {1, 1, 0}, {30, 1, 0}, {0, 30, 0x3fffffff}, {1, 30, 0x3ffffffe}, {28, 30, 0x30000000},
             {29, 30, 0x20000000}, {30, 30, 0}, {0, 29, 0x1fffffff}, {28, 29, 0x10000000}, {29, 29, 0}, {5, 6, 32}, {6, 6, 0}};
         for (int[] d : due) {
-            PortDues x = Check.loaded("lay free " + d[0] + " rate 9999;ship a tons 1;"
+            Dues x = Check.loaded("lay free " + d[0] + " rate 9999;ship a tons 1;"
                     + "call a 359 to " + (358 + d[1]) + " waste 0;");
             String what = " with free " + d[0] + " and " + d[1] + " days";
             Check.due("layDays" + what, x.layDays(0), d[2]);
@@ -206,13 +206,13 @@ final class EdgeTariffTest {
             Check.due("amount" + what, x.amount(0, 3), 9999 * Integer.bitCount(d[2]));
             Check.due("quote" + what, x.quote(0, 3599, 3598 + d[1], 0), 9999 * Integer.bitCount(d[2]));
         }
-        PortDues none = Check.loaded("ship a tons 1;call a 0 to 29 waste 0;");
+        Dues none = Check.loaded("ship a tons 1;call a 0 to 29 waste 0;");
         Check.due("lay days without a statement", none.layDays(0), 0);
     }
 
     // "Each change of the tariff makes a new version of it; the tariff of the text is version 0."
     private static void versions() {
-        PortDues x = Check.loaded(SIX + REBATES + "lay free 5 rate 5;");
+        Dues x = Check.loaded(SIX + REBATES + "lay free 5 rate 5;");
         Check.due("the version of the text", x.count(4), 0);
         Check.due("setRate", x.setRate(5, 999), 1);
         Check.due("setPercent", x.setPercent(3, 100), 2);
@@ -226,7 +226,7 @@ final class EdgeTariffTest {
 
     // setRate, setPercent, setLay: "IllegalStateException if the present version is 20"
     private static void versionTwenty() {
-        PortDues x = Check.loaded("band 0 rate 1;rebate 2 percent 1;");
+        Dues x = Check.loaded("band 0 rate 1;rebate 2 percent 1;");
         for (int version = 1; version <= 19; version++) {
             Check.due("setLay", x.setLay(version, version), version);
         }
@@ -254,7 +254,7 @@ final class EdgeTariffTest {
 
     // setRate: "rate: 0 to 999"; setPercent: "percent: 0 to 100"; setLay: "free: 0 to 30", "rate: 0 to 9999"
     private static void leastAndGreatestChanges() {
-        PortDues x = Check.loaded(SIX + REBATES);
+        Dues x = Check.loaded(SIX + REBATES);
         int version = 0;
         for (int value : new int[] {0, 999}) {
             for (int band : new int[] {0, 5}) {
@@ -283,7 +283,7 @@ final class EdgeTariffTest {
 
     // "Before the first successful load() there is nothing": no band and no rebate, but lay days.
     private static void changesWithoutBands() {
-        PortDues x = new PortDues();
+        Dues x = new Dues();
         Check.dueRefused(x, "setRate", Check.INDEX, () -> x.setRate(0, 1));
         Check.dueRefused(x, "setPercent", Check.INDEX, () -> x.setPercent(0, 1));
         Check.due("setLay", x.setLay(0, 9999), 1);
@@ -294,7 +294,7 @@ final class EdgeTariffTest {
 
     // setLay: "Days that are pending or upheld stay so, also if they are no lay days any more."
     private static void disputedDaysStay() {
-        PortDues x = Check.loaded("lay free 0 rate 2;ship a tons 1;call a 0 to 29 waste 0;");
+        Dues x = Check.loaded("lay free 0 rate 2;ship a tons 1;call a 0 to 29 waste 0;");
         x.dispute(0, 0);
         x.dispute(0, 29);
         x.dispute(0, 28);
@@ -316,7 +316,7 @@ final class EdgeTariffTest {
 
     // writeTariff: "changed at its end if one of its numbers is not that of the version before (never in version 0)"
     private static void changedLines() {
-        PortDues x = Check.loaded("slab;" + SIX + REBATES);
+        Dues x = Check.loaded("slab;" + SIX + REBATES);
         x.setRate(0, 4);
         x.setRate(0, 3);
         x.setPercent(3, 8);
@@ -342,7 +342,7 @@ final class EdgeTariffTest {
         Check.due("changed in another version 0", marked(x, 0), "");
     }
 
-    private static String marked(PortDues x, int version) {
+    private static String marked(Dues x, int version) {
         StringBuilder all = new StringBuilder();
         for (String line : Check.tariffSheet(x, version).split("\n")) {
             if (line.endsWith(" changed")) {
@@ -354,7 +354,7 @@ final class EdgeTariffTest {
 
     // writeTariff: "version: number of a version"
     private static void versionsOfSheets() {
-        PortDues x = new PortDues();
+        Dues x = new Dues();
         Check.due("the sheet of nothing", Check.tariffSheet(x, 0),
                 "version 0\nslices\nwaste fixed 0 free 0 price 0\nlay free 30 rate 0\n");
         for (int version = 0; version <= 20; version++) {
@@ -369,7 +369,7 @@ final class EdgeTariffTest {
         Check.due("the output stays", Check.rest(x).split("\n")[0], "version 20");
         x.undo();
         Check.dueThrow("the version that was undone", Check.INDEX, () -> x.writeTariff(20));
-        PortDues all = Check.loaded("slab;waste fixed 9999 free 999 price 999;lay free 30 rate 9999;" + SIX + REBATES);
+        Dues all = Check.loaded("slab;waste fixed 9999 free 999 price 999;lay free 30 rate 9999;" + SIX + REBATES);
         Check.due("the longest sheet", Check.tariffSheet(all, 0), "version 0\nslab\nband 0 rate 3\nband 1 rate 0\n"
                 + "band 100 rate 7\nband 101 rate 999\nband 9998 rate 1\nband 9999 rate 5\nrebate 2 percent 10\n"
                 + "rebate 3 percent 0\nrebate 5 percent 100\nrebate 41 percent 7\nwaste fixed 9999 free 999 price 999\nlay free 30 rate 9999\n");

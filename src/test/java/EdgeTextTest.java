@@ -55,13 +55,13 @@ final class EdgeTextTest {
         Check.refused(times("\n", 800), 1, 800);
         Check.refused(times("a", 800), 1, 0);
         for (int length : new int[] {781, 790, 799, 800}) {
-            PortDues x = new PortDues();
+            Dues x = new Dues();
             Check.put(x, full.substring(800 - length));
             Check.dueThrow("append to " + length + " bytes", Check.STATE, () -> x.append(1, 2, 3, 4, 5));
             Check.due("the refused append changed nothing", Check.inputLength(x), length);
             Check.due("the text is whole", x.load(), 1);
         }
-        PortDues y = new PortDues();
+        Dues y = new Dues();
         Check.put(y, full.substring(0, 780));
         Check.due("append to 780 bytes", y.append(0x20202020, 0x73686970, 0x20622074, 0x6f6e7320, 0x3334353b), 800);
         Check.dueThrow("append to 800 bytes", Check.STATE, () -> y.append(0, 0, 0, 0, 0));
@@ -72,7 +72,7 @@ final class EdgeTextTest {
     // "Appends 20 bytes to the input buffer: the four bytes of each parameter, most significant byte first."
     private static void bytesOfAppend() {
         // Each place of the 20 has a letter of its own: a name is found there only in the right order.
-        PortDues x = new PortDues();
+        Dues x = new Dues();
         Check.due("append", x.append(0x7368_6970, 0x2061_6263, 0x6465_6620, 0x746f_6e73, 0x2037_3b0a), 20);
         Check.due("load", x.load(), 1);
         x.append(0x6162_6364, 0x6566_6768, 0x696a_6b6c, 0x6d6e_6f70, 0x7172_7374);
@@ -93,7 +93,7 @@ final class EdgeTextTest {
     // truncate: "length: the new length, 0 to the current length"
     private static void truncateEdges() {
         for (int length : new int[] {0, 20, 800}) {
-            PortDues x = new PortDues();
+            Dues x = new Dues();
             for (int i = 0; i < length; i += 20) {
                 x.append(0x20202020, 0x20202020, 0x20202020, 0x20202020, 0x20202020);
             }
@@ -107,7 +107,7 @@ final class EdgeTextTest {
             Check.due("truncate to 0", Check.inputLength(x), 0);
             Check.dueThrow("truncate(1) behind it", Check.ARGUMENT, () -> x.truncate(1));
         }
-        PortDues y = new PortDues();
+        Dues y = new Dues();
         Check.put(y, "slab;x");
         y.truncate(5);
         Check.due("the first bytes stay", y.load(), 0);
@@ -123,7 +123,7 @@ final class EdgeTextTest {
         Check.refused("", 1, 0);
         Check.refused(" ", 1, 1);
         Check.refused(" \n \n", 1, 4);
-        PortDues x = new PortDues();
+        Dues x = new Dues();
         Check.due("load of a buffer that was never filled", x.load(), PortDues.PARSE_ERROR);
         Check.due("its code", x.errorCode(), 1);
         Check.due("its position", x.errorPosition(), 0);
@@ -149,7 +149,7 @@ final class EdgeTextTest {
     // "a word is a maximal run of lowercase letters a-z; a number is a maximal run of decimal digits"
     private static void lettersAndDigits() {
         Check.accepted("ship a tons 1;ship z tons 9;ship azazaz tons 1090;call a 0 to 9 waste 90;");
-        PortDues x = Check.loaded("ship z tons 9;ship yz tons 9870;");
+        Dues x = Check.loaded("ship z tons 9;ship yz tons 9870;");
         Check.due("the digits", x.tons(1), 9870);
         // The bytes next to the letters and to the digits, and the capital letters, are symbols.
         for (char symbol : new char[] {'a' - 1, 'z' + 1, 'A', 'Z'}) {
@@ -170,7 +170,7 @@ final class EdgeTextTest {
 
     // "a number ... of any length"
     private static void numbersOfAnyLength() {
-        PortDues x = Check.loaded("ship a tons " + times("0", 770) + "123;");
+        Dues x = Check.loaded("ship a tons " + times("0", 770) + "123;");
         Check.due("a number of 773 digits", x.tons(0), 123);
         Check.accepted("ship a tons " + times("0", 786) + "1;");
         Check.refused("ship a tons " + times("0", 787) + "1", 1, 800);
@@ -269,7 +269,7 @@ final class EdgeTextTest {
         Check.refused("call ab 1 to 1 waste 1;" + ship, 3, 5);
         Check.refused(ship + "call b 1 to 1 waste 1;ship b tons 1;", 3, 20);
         // The ship of another text is none of this one.
-        PortDues x = Check.loaded(ship);
+        Dues x = Check.loaded(ship);
         Check.due("load", Check.load(x, "call ab 1 to 1 waste 1;"), PortDues.PARSE_ERROR);
         Check.due("errorCode", x.errorCode(), 3);
         for (String keyword : KEYWORDS) {
@@ -435,7 +435,7 @@ final class EdgeTextTest {
     private static void mostOfAll() {
         String text = "slab;waste fixed 1 free 1 price 1;" + rows("band ", " rate 1;", 0, 6)
                 + rows("rebate ", " percent 1;", 2, 4) + ships(8) + rows("call h ", " to 30 waste 1;", 1, 20);
-        PortDues x = new PortDues();
+        Dues x = new Dues();
         Check.due("load", Check.load(x, text), 8);
         int[] counts = {8, 20, 0, 0, 0, 0, 6, 4, 0};
         for (int what = 0; what < counts.length; what++) {
@@ -496,8 +496,8 @@ final class EdgeTextTest {
     // waste: "All are 0 without it"; lay: "30 and 0 without it"; "slices without a statement of a mode"
     private static void withoutStatements() {
         int[] without = {0, 0, 0, 0, 30, 0};
-        PortDues x = Check.loaded("ship a tons 1;");
-        PortDues later = Check.loaded("slab;waste fixed 1 free 2 price 3;lay free 4 rate 5;");
+        Dues x = Check.loaded("ship a tons 1;");
+        Dues later = Check.loaded("slab;waste fixed 1 free 2 price 3;lay free 4 rate 5;");
         Check.load(later, "ship a tons 1;");
         for (int what = 0; what < without.length; what++) {
             Check.due("tariff(" + what + ")", x.tariff(what), without[what]);
@@ -505,8 +505,8 @@ final class EdgeTextTest {
         }
         int[] least = {0, 0, 0, 0, 0, 0};
         int[] greatest = {1, 9999, 999, 999, 30, 9999};
-        PortDues low = Check.loaded("slices;waste fixed 0 free 0 price 0;lay free 0 rate 0;");
-        PortDues high = Check.loaded("slab;waste fixed 9999 free 999 price 999;lay free 30 rate 9999;");
+        Dues low = Check.loaded("slices;waste fixed 0 free 0 price 0;lay free 0 rate 0;");
+        Dues high = Check.loaded("slab;waste fixed 9999 free 999 price 999;lay free 30 rate 9999;");
         for (int what = 0; what < without.length; what++) {
             Check.due("the least tariff(" + what + ")", low.tariff(what), least[what]);
             Check.due("the greatest tariff(" + what + ")", high.tariff(what), greatest[what]);
@@ -515,7 +515,7 @@ final class EdgeTextTest {
 
     // "Bands, rebates, ships and calls are numbered from 0 each."
     private static void numberedFromZero() {
-        PortDues x = Check.loaded("ship b tons 5;rebate 3 percent 7;band 0 rate 2;call b 9 to 9 waste 1;ship a tons 6;"
+        Dues x = Check.loaded("ship b tons 5;rebate 3 percent 7;band 0 rate 2;call b 9 to 9 waste 1;ship a tons 6;"
                 + "band 4 rate 1;call a 8 to 8 waste 2;rebate 4 percent 9;call b 7 to 7 waste 3;");
         Check.due("ship 0", x.tons(0), 5);
         Check.due("ship 1", x.tons(1), 6);
@@ -534,7 +534,7 @@ final class EdgeTextTest {
     // load: "Parses the input buffer and empties it." "Returns the number of ships; PARSE_ERROR if there is a
     // parse error (then only the buffer and the parse error change)."
     private static void loadAnswers() {
-        PortDues x = new PortDues();
+        Dues x = new Dues();
         Check.due("load of no ship", Check.load(x, "slab;"), 0);
         Check.due("the buffer is empty", Check.inputLength(x), 0);
         Check.due("load of 8 ships", Check.load(x, ships(8)), 8);
@@ -557,7 +557,7 @@ final class EdgeTextTest {
 
     // errorCode: "0 if it had none or there was no load()"; errorPosition: "NONE if it had none or there was no load()"
     private static void errorOfTheLastLoad() {
-        PortDues x = new PortDues();
+        Dues x = new Dues();
         dueError(x, 0, PortDues.NONE);
         x.append(0, 0, 0, 0, 0);
         x.find();
@@ -582,14 +582,14 @@ final class EdgeTextTest {
         dueError(x, 4, 112);
     }
 
-    private static void dueError(PortDues x, int code, int position) {
+    private static void dueError(Dues x, int code, int position) {
         Check.due("errorCode", x.errorCode(), code);
         Check.due("errorPosition", x.errorPosition(), position);
     }
 
     // find: "the whole content of the input buffer, byte by byte. The buffer is empty afterwards." "NONE if there is none"
     private static void findWholeContent() {
-        PortDues x = new PortDues();
+        Dues x = new Dues();
         Check.due("find in an empty ledger", Check.find(x, "a"), PortDues.NONE);
         Check.due("find of nothing in an empty ledger", x.find(), PortDues.NONE);
         Check.load(x, "ship a tons 1;ship abcdef tons 1;ship abcde tons 1;" + "ship z tons 1;");
@@ -616,7 +616,7 @@ final class EdgeTextTest {
 
     // outputByte: "IndexOutOfBoundsException if index is negative or not less than the output's length"
     private static void outputEdges() {
-        PortDues x = new PortDues();
+        Dues x = new Dues();
         for (int index : new int[] {-1, 0, 1, Integer.MIN_VALUE, Integer.MAX_VALUE}) {
             Check.dueThrow("outputByte(" + index + ") of nothing", Check.INDEX, () -> x.outputByte(index));
         }

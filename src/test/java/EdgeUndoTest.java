@@ -27,10 +27,10 @@ final class EdgeUndoTest {
     // "Before the first successful load() there is nothing, the mode is slices, waste and lay are as without their
     // statements. Today is day 0 at first"; a new object: "an empty ledger, with empty buffers"
     private static void emptyLedger() {
-        PortDues fresh = new PortDues();
-        PortDues broken = new PortDues();
+        Dues fresh = new Dues();
+        Dues broken = new Dues();
         Check.load(broken, TEXT + "x");
-        for (PortDues x : new PortDues[] {fresh, broken}) {
+        for (Dues x : new Dues[] {fresh, broken}) {
             for (int what = 0; what <= 8; what++) {
                 Check.due("count(" + what + ")", x.count(what), 0);
             }
@@ -64,7 +64,7 @@ final class EdgeUndoTest {
 
     // undo: "IllegalStateException if there is nothing to undo"; undoCount: "how many calls can be undone"
     private static void nothingToUndo() {
-        PortDues x = new PortDues();
+        Dues x = new Dues();
         Check.dueRefused(x, "undo of a new object", Check.STATE, x::undo);
         Check.load(x, TEXT);
         Check.due("one call", x.undoCount(), 1);
@@ -79,7 +79,7 @@ final class EdgeUndoTest {
     // "the last 6 are kept"; undo: "Returns how many calls can still be undone."
     private static void sixAreKept() {
         for (int calls = 0; calls <= 20; calls++) {
-            PortDues x = new PortDues();
+            Dues x = new Dues();
             for (int i = 1; i <= calls; i++) {
                 x.advance(i);
                 Check.due("undoCount", x.undoCount(), Math.min(i, 6));
@@ -98,7 +98,7 @@ final class EdgeUndoTest {
             }
         }
         // Some are undone, and others come in their place.
-        PortDues y = new PortDues();
+        Dues y = new Dues();
         for (int i = 0; i < 6; i++) {
             y.advance(10);
         }
@@ -119,7 +119,7 @@ final class EdgeUndoTest {
     }
 
     private interface Change {
-        void make(PortDues x);
+        void make(Dues x);
     }
 
     private static final String[] NAMES = {"load", "addCall", "cancel", "setWaste", "setTons", "bill", "billAll", "credit",
@@ -130,8 +130,8 @@ final class EdgeUndoTest {
         x -> x.credit(0, 15), x -> x.dispute(0, 4), x -> x.settle(0, 3, true), x -> x.pay(0, 1000000000), x -> x.advance(3600),
         x -> x.setRate(0, 999), x -> x.setPercent(0, 100), x -> x.setLay(30, 9999)};
 
-    private static PortDues prepared() {
-        PortDues x = Check.loaded(TEXT);
+    private static Dues prepared() {
+        Dues x = Check.loaded(TEXT);
         x.addCall(0, 400, 400, 0);
         x.dispute(0, 3);
         x.bill(0);
@@ -141,12 +141,12 @@ final class EdgeUndoTest {
     // "Each successful load(), and each call of addCall(), ... setLay() that does not throw can be undone"
     private static void everyKindIsKept() {
         for (int i = 0; i < CHANGES.length; i++) {
-            PortDues x = prepared();
+            Dues x = prepared();
             CHANGES[i].make(x);
             Check.due("undoCount behind " + NAMES[i], x.undoCount(), 5);
             Check.due("undo of " + NAMES[i], x.undo(), 4);
             Check.due("all behind undo of " + NAMES[i], Check.whole(x), Check.whole(prepared()));
-            PortDues y = prepared();
+            Dues y = prepared();
             CHANGES[i].make(y);
             Check.due(NAMES[i] + " has changed something", Check.rows(y).equals(Check.rows(prepared())), false);
             for (int j = 0; j < CHANGES.length; j++) {
@@ -157,7 +157,7 @@ final class EdgeUndoTest {
 
     /** Two changes, one behind the other, and both undone. */
     private static void two(int i, int j) {
-        PortDues x = prepared();
+        Dues x = prepared();
         String before = Check.rows(x);
         CHANGES[i].make(x);
         String between = Check.rows(x);
@@ -178,7 +178,7 @@ final class EdgeUndoTest {
         Change[] changes = {x -> x.billAll(1), x -> x.setWaste(0, 11), x -> x.setTons(0, 100), x -> x.setRate(0, 1),
             x -> x.setPercent(0, 10), x -> x.setLay(2, 7), x -> Check.load(x, TEXT)};
         for (int i = 0; i < changes.length; i++) {
-            PortDues x = Check.loaded(TEXT);
+            Dues x = Check.loaded(TEXT);
             x.billAll(1);
             changes[i].make(x);
             Check.due("undoCount behind " + names[i], x.undoCount(), 3);
@@ -190,7 +190,7 @@ final class EdgeUndoTest {
 
     // "Each successful load()": one with an error is none
     private static void failedLoads() {
-        PortDues x = new PortDues();
+        Dues x = new Dues();
         x.advance(5);
         for (String text : new String[] {"", "x", "slab;slab;", "band 1 rate 1;", TEXT + ";"}) {
             Check.load(x, text);
@@ -204,7 +204,7 @@ final class EdgeUndoTest {
 
     // A load() is one of the six like each other change, and what was before it can be undone, too.
     private static void loadsInBetween() {
-        PortDues x = Check.loaded(TEXT);
+        Dues x = Check.loaded(TEXT);
         x.pay(0, 1);
         x.setRate(0, 5);
         Check.load(x, "ship z tons 3;");
@@ -237,7 +237,7 @@ final class EdgeUndoTest {
 
     // "undo() restores everything except the two buffers and the parse error."
     private static void buffersAndErrorStay() {
-        PortDues x = Check.loaded(TEXT);
+        Dues x = Check.loaded(TEXT);
         x.bill(0);
         x.setTons(0, 77);
         int length = x.writeInvoice(0);
@@ -264,16 +264,16 @@ final class EdgeUndoTest {
     }
 
     private static void backToTheBeginning() {
-        PortDues x = Check.loaded(TEXT);
+        Dues x = Check.loaded(TEXT);
         x.billAll(0);
         x.undo();
         x.undo();
-        Check.due("all is as in a new object", Check.whole(x), Check.whole(new PortDues()));
+        Check.due("all is as in a new object", Check.whole(x), Check.whole(new Dues()));
     }
 
     // "undo() restores everything": rows that another text has used in between, number 0 of each kind, too
     private static void rowsUsedInBetween() {
-        PortDues x = prepared();
+        Dues x = prepared();
         x.credit(0, 5);
         x.advance(3);
         String before = Check.rows(x);
@@ -291,7 +291,7 @@ final class EdgeUndoTest {
     // "undo() restores everything": each change behind others, and back over the six that are kept
     private static void everythingComesBack() {
         for (int start = 0; start < CHANGES.length; start++) {
-            PortDues x = prepared();
+            Dues x = prepared();
             String[] states = new String[7];
             int made = 0;
             states[0] = Check.rows(x);

@@ -17,7 +17,7 @@ final class InputTest {
     }
 
     private static void newObject() {
-        PortDues x = new PortDues();
+        Dues x = new Dues();
         for (int what = 0; what <= 8; what++) {
             Check.due("new: count(" + what + ")", x.count(what), 0);
         }
@@ -41,7 +41,7 @@ final class InputTest {
     }
 
     private static void append() {
-        PortDues x = new PortDues();
+        Dues x = new Dues();
         for (int i = 1; i <= 40; i++) {
             Check.due("append number " + i, x.append(0x20202020, 0x20202020, 0x20202020, 0x20202020, 0x20202020), i * 20);
         }
@@ -60,7 +60,7 @@ final class InputTest {
     }
 
     private static void truncate() {
-        PortDues x = new PortDues();
+        Dues x = new Dues();
         Check.dueThrow("truncate(1) of an empty buffer", Check.ARGUMENT, () -> x.truncate(1));
         x.truncate(0);
         x.append(1, 2, 3, 4, 5);
@@ -76,7 +76,7 @@ final class InputTest {
     }
 
     private static void loadReplacesAll() {
-        PortDues x = Check.loaded("slab;band 0 rate 2;band 100 rate 3;rebate 2 percent 10;waste fixed 1 free 2 price 3;"
+        Dues x = Check.loaded("slab;band 0 rate 2;band 100 rate 3;rebate 2 percent 10;waste fixed 1 free 2 price 3;"
                 + "lay free 4 rate 5;ship a tons 150;ship b tons 9;call a 3 to 9 waste 12;call b 3599 to 3628 waste 999;");
         Check.due("calls", x.count(1), 2);
         Check.due("last day", x.call(1, 2), 3628);
@@ -95,8 +95,8 @@ final class InputTest {
         }
         Check.due("paid behind load", x.paid(0), 0);
         Check.due("the buffer is empty behind load", x.append(0, 0, 0, 0, 0), 20);
-        Check.due("a text without a ship", Check.load(new PortDues(), "slices;"), 0);
-        PortDues y = new PortDues();
+        Check.due("a text without a ship", Check.load(new Dues(), "slices;"), 0);
+        Dues y = new Dues();
         String text = "slab;waste fixed 1 free 1 price 1;lay free 1 rate 1;ship a tons 1;";
         for (int i = 0; i < 3; i++) {
             Check.due("the same statements in each text", Check.load(y, text), 1);
@@ -161,7 +161,7 @@ final class InputTest {
     }
 
     private static void errorState() {
-        PortDues x = Check.loaded("band 0 rate 2;ship a tons 5;call a 1 to 2 waste 3;");
+        Dues x = Check.loaded("band 0 rate 2;ship a tons 5;call a 1 to 2 waste 3;");
         x.setRate(0, 7);
         Check.due("load with an error", Check.load(x, "slab;ship b tons 9;x"), PortDues.PARSE_ERROR);
         Check.due("errorCode", x.errorCode(), 1);
@@ -183,7 +183,7 @@ final class InputTest {
     }
 
     private static void find() {
-        PortDues x = Check.loaded("ship a tons 1;ship ab tons 2;ship abcdef tons 3;");
+        Dues x = Check.loaded("ship a tons 1;ship ab tons 2;ship abcdef tons 3;");
         Check.due("find a", Check.find(x, "a"), 0);
         Check.due("the buffer behind find", x.append(0, 0, 0, 0, 0), 20);
         x.truncate(0);
@@ -198,7 +198,7 @@ final class InputTest {
     }
 
     private static void outputByte() {
-        PortDues x = Check.loaded("ship ab tons 1;");
+        Dues x = Check.loaded("ship ab tons 1;");
         Check.dueThrow("outputByte(0) of nothing", Check.INDEX, () -> x.outputByte(0));
         Check.due("length", x.writeStatement(0), 5);
         Check.due("outputByte(0)", x.outputByte(0), 'a');

@@ -32,14 +32,14 @@ final class InvoiceTest {
         Check.finish();
     }
 
-    private static void dueLines(PortDues x, int invoice, int... due) {
+    private static void dueLines(Dues x, int invoice, int... due) {
         for (int line = 0; line < 4; line++) {
             Check.due("line(" + invoice + ", " + line + ")", x.line(invoice, line), due[line]);
         }
     }
 
     private static void bill() {
-        PortDues x = Check.loaded(TEXT);
+        Dues x = Check.loaded(TEXT);
         Check.due("bill(1)", x.bill(1), 0);
         dueLines(x, 0, 350, -35, 5, 0);
         Check.due("it has no lay days", x.invoice(0, 3), 7);
@@ -75,7 +75,7 @@ final class InvoiceTest {
     }
 
     private static void billLimits() {
-        PortDues x = Check.loaded(TARIFF + "ship a tons 150;");
+        Dues x = Check.loaded(TARIFF + "ship a tons 150;");
         for (int i = 0; i < 40; i++) {
             x.addCall(0, 3500, 3529, 0);
             x.bill(i);
@@ -93,7 +93,7 @@ final class InvoiceTest {
         Check.due("its balance", x.balance(0), sumOfNets(x));
     }
 
-    private static long sumOfNets(PortDues x) {
+    private static long sumOfNets(Dues x) {
         long sum = 0;
         for (int i = 0; i < x.count(2); i++) {
             sum += x.net(i);
@@ -102,7 +102,7 @@ final class InvoiceTest {
     }
 
     private static void billAll() {
-        PortDues x = Check.loaded(TEXT + "call a 500 to 500 waste 0;");
+        Dues x = Check.loaded(TEXT + "call a 500 to 500 waste 0;");
         x.cancel(3);
         x.bill(1);
         Check.due("billAll(0)", x.billAll(0), 1);
@@ -123,7 +123,7 @@ final class InvoiceTest {
     }
 
     private static void invoiceValues() {
-        PortDues x = Check.loaded(TEXT);
+        Dues x = Check.loaded(TEXT);
         x.advance(17);
         x.setLay(2, 8);
         x.bill(2);
@@ -145,7 +145,7 @@ final class InvoiceTest {
     }
 
     private static void credit() {
-        PortDues x = Check.loaded(TEXT);
+        Dues x = Check.loaded(TEXT);
         x.bill(0);
         x.bill(1);
         x.advance(3);
@@ -177,7 +177,7 @@ final class InvoiceTest {
     }
 
     private static void creditLimit() {
-        PortDues x = Check.loaded(TARIFF + "ship a tons 150;");
+        Dues x = Check.loaded(TARIFF + "ship a tons 150;");
         for (int i = 0; i < 14; i++) {
             x.addCall(0, i, i, 0);
         }
@@ -190,7 +190,7 @@ final class InvoiceTest {
     }
 
     private static void open() {
-        PortDues x = Check.loaded(TEXT);
+        Dues x = Check.loaded(TEXT);
         x.bill(0);
         x.bill(2);
         x.bill(1);
@@ -224,7 +224,7 @@ final class InvoiceTest {
     }
 
     private static void openWithNegativeNet() {
-        PortDues x = Check.loaded(TEXT);
+        Dues x = Check.loaded(TEXT);
         x.bill(0);
         x.bill(1);
         x.credit(1, 5);
@@ -238,13 +238,13 @@ final class InvoiceTest {
         Check.due("open(0)", x.open(0), 0);
         Check.due("oldestOpen", x.oldestOpen(0), PortDues.NONE);
         Check.due("its statement", Check.statement(x, 0), "a\n0 380 0\n1 -35 0\n0\n");
-        PortDues y = Check.loaded(TEXT);
+        Dues y = Check.loaded(TEXT);
         y.bill(1);
         y.bill(0);
         y.credit(0, 5);
         Check.due("invoice 0 has a net below 0", y.net(0), -35);
         Check.due("it goes to a later one", y.open(1), 345);
-        PortDues one = Check.loaded("waste fixed 1 free 0 price 0;ship a tons 1;call a 0 to 0 waste 0;");
+        Dues one = Check.loaded("waste fixed 1 free 0 price 0;ship a tons 1;call a 0 to 0 waste 0;");
         one.bill(0);
         Check.due("a net of 1", one.open(0), 1);
         one.addCall(0, 1, 1, 0);
@@ -257,7 +257,7 @@ final class InvoiceTest {
     }
 
     private static void rebuilt() {
-        PortDues x = Check.loaded(TEXT);
+        Dues x = Check.loaded(TEXT);
         x.bill(1);
         x.bill(0);
         for (int line = 0; line < 4; line++) {
@@ -289,7 +289,7 @@ final class InvoiceTest {
     }
 
     private static void rebuiltByItsVersion() {
-        PortDues x = Check.loaded(TEXT);
+        Dues x = Check.loaded(TEXT);
         x.bill(0);
         x.bill(1);
         x.setRate(0, 999);
@@ -309,7 +309,7 @@ final class InvoiceTest {
     }
 
     private static void staleAndContested() {
-        PortDues x = Check.loaded(TEXT);
+        Dues x = Check.loaded(TEXT);
         x.bill(0);
         x.bill(2);
         Check.due("contested(0)", x.contested(0), 0);
@@ -336,7 +336,7 @@ final class InvoiceTest {
     }
 
     private static void dispute() {
-        PortDues x = Check.loaded(TEXT);
+        Dues x = Check.loaded(TEXT);
         Check.due("dispute(0, 2)", x.dispute(0, 2), 1);
         Check.due("dispute(0, 4)", x.dispute(0, 4), 2);
         Check.due("count(8)", x.count(8), 2);
@@ -365,7 +365,7 @@ final class InvoiceTest {
     }
 
     private static void settle() {
-        PortDues x = Check.loaded(TEXT);
+        Dues x = Check.loaded(TEXT);
         x.dispute(0, 2);
         x.dispute(0, 3);
         x.dispute(2, 3);
@@ -384,7 +384,7 @@ final class InvoiceTest {
         for (int call : Check.outside(0, 2)) {
             Check.dueRefused(x, "settle(" + call + ", 3)", Check.INDEX, () -> x.settle(call, 3, true));
         }
-        PortDues y = Check.loaded("lay free 0 rate 1;ship a tons 1;call a 0 to 29 waste 0;");
+        Dues y = Check.loaded("lay free 0 rate 1;ship a tons 1;call a 0 to 29 waste 0;");
         Check.due("dispute of day 0", y.dispute(0, 0), 1);
         Check.due("dispute of day 29", y.dispute(0, 29), 2);
         Check.due("settle of day 29", y.settle(0, 29, true), 1);
@@ -396,7 +396,7 @@ final class InvoiceTest {
     }
 
     private static void pay() {
-        PortDues x = Check.loaded(TEXT);
+        Dues x = Check.loaded(TEXT);
         Check.due("pay(0, 1)", x.pay(0, 1), 1);
         Check.due("pay(0, 1000000000)", x.pay(0, 1000000000), 1000000001);
         Check.due("pay above an int", x.pay(0, 1000000000), 2000000001L);
@@ -416,7 +416,7 @@ final class InvoiceTest {
     }
 
     private static void advance() {
-        PortDues x = new PortDues();
+        Dues x = new Dues();
         Check.due("advance(1)", x.advance(1), 1);
         for (int i = 1; i <= 27; i++) {
             Check.due("advance(3600)", x.advance(3600), 1 + i * 3600);
@@ -431,7 +431,7 @@ final class InvoiceTest {
     }
 
     private static void overdue() {
-        PortDues x = Check.loaded(TEXT);
+        Dues x = Check.loaded(TEXT);
         x.bill(0);
         x.advance(10);
         x.bill(1);
@@ -453,7 +453,7 @@ final class InvoiceTest {
     }
 
     private static void revenue() {
-        PortDues x = Check.loaded(TEXT);
+        Dues x = Check.loaded(TEXT);
         x.bill(0);
         x.bill(1);
         x.bill(2);
@@ -478,7 +478,7 @@ final class InvoiceTest {
     }
 
     private static void statement() {
-        PortDues x = Check.loaded(TEXT);
+        Dues x = Check.loaded(TEXT);
         Check.due("a statement without invoices", Check.statement(x, 1), "bee\n0\n");
         x.bill(1);
         x.bill(2);
@@ -495,7 +495,7 @@ final class InvoiceTest {
     }
 
     private static void sheet() {
-        PortDues x = Check.loaded(TEXT);
+        Dues x = Check.loaded(TEXT);
         x.advance(12);
         x.bill(0);
         Check.due("sheet", Check.invoiceSheet(x, 0), "invoice 0 ship a call 0 date 12\ndues 350\nrebate 0\nwaste 9\n"
@@ -521,7 +521,7 @@ final class InvoiceTest {
         x.bill(1);
         Check.due("a sheet without lay days", Check.invoiceSheet(x, 3), "invoice 3 ship a call 1 date 12\ndues 500\n"
                 + "rebate -50\nwaste 5\nnet 455 open 455\n");
-        PortDues y = Check.loaded("lay free 0 rate 9999;ship abcdef tons 1;call abcdef 3 to 32 waste 0;");
+        Dues y = Check.loaded("lay free 0 rate 9999;ship abcdef tons 1;call abcdef 3 to 32 waste 0;");
         y.bill(0);
         StringBuilder days = new StringBuilder();
         for (int day = 0; day < 30; day++) {
@@ -532,7 +532,7 @@ final class InvoiceTest {
     }
 
     private static void wrongNumbers() {
-        PortDues x = Check.loaded(TEXT);
+        Dues x = Check.loaded(TEXT);
         x.bill(0);
         for (int invoice : Check.outside(0, 0)) {
             Check.dueThrow("invoice(" + invoice + ", 6)", Check.INDEX, () -> x.invoice(invoice, 6));

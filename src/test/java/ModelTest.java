@@ -6,23 +6,29 @@ import java.util.Comparator;
 import java.util.List;
 import java.util.Random;
 
-/** Random runs of calls on PortDues and on the Model: every answer and every exception is the same. */
+/**
+ * Random runs of calls on PortDues and on the Model: every answer and every exception is the same. All calls of
+ * a run are tried out, as Dues says, so that a question that changes something is seen by a later one.
+ */
 final class ModelTest {
-    private static final int RUNS = 150;
-    private static final int CALLS = 512;
+    private static final int RUNS = 170;
+    // Below 512, so that there are calls left to look at the output and to choose arguments.
+    private static final int CALLS = 470;
+    // append() 40 times, truncate(), load() and the two questions about the error
+    private static final int CALLS_OF_A_TEXT = 44;
     private static final String[] CHANGES = {"addCall", "cancel", "setWaste", "setTons", "bill", "billAll", "credit",
         "dispute", "settle", "pay", "advance", "setRate", "setPercent", "setLay", "undo"};
 
     private final Random random;
     private final List<Method> queries = new ArrayList<>();
     private final List<Method> changes = new ArrayList<>();
-    private PortDues x;
+    private Dues x;
     private Model model;
     private int calls;
 
     private ModelTest(long seed) {
         random = new Random(seed);
-        for (Method m : PortDues.class.getDeclaredMethods()) {
+        for (Method m : Dues.class.getDeclaredMethods()) {
             if (!Modifier.isPublic(m.getModifiers())) {
                 continue;
             }
@@ -49,7 +55,7 @@ final class ModelTest {
     }
 
     private void run(int run) {
-        x = new PortDues();
+        x = new Dues();
         model = new Model();
         calls = 0;
         if (random.nextInt(8) != 0) {
@@ -60,7 +66,7 @@ final class ModelTest {
         boolean grows = random.nextInt(3) == 0;
         while (calls < CALLS) {
             int kind = random.nextInt(100);
-            if (kind < 1 && !grows) {
+            if (kind < 1 && !grows && calls + CALLS_OF_A_TEXT <= CALLS) {
                 text(run, randomText(random.nextInt(3) == 0));
             } else if (kind < 3) {
                 put(run, random.nextBoolean() ? "s" + random.nextInt(9) : name(random.nextInt(9)));
@@ -82,7 +88,7 @@ final class ModelTest {
     }
 
     private Method method(String name) {
-        for (Method m : PortDues.class.getDeclaredMethods()) {
+        for (Method m : Dues.class.getDeclaredMethods()) {
             if (m.getName().equals(name)) {
                 return m;
             }
@@ -117,7 +123,9 @@ final class ModelTest {
 
     private void both(int run, Method m, Object[] arguments) {
         calls++;
+        x.tryOut();
         String got = answer(() -> m.invoke(x, arguments));
+        x.endOfTrying();
         String want = answer(() -> twin(m).invoke(model, twinArguments(m, arguments)));
         Check.due("run " + run + ", call " + calls + ": " + m.getName() + java.util.Arrays.toString(arguments), got, want);
     }

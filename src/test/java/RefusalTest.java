@@ -21,7 +21,7 @@ final class RefusalTest {
     }
 
     private interface Maker {
-        PortDues make();
+        Dues make();
     }
 
     private static final Test NEVER = a -> false;
@@ -93,7 +93,7 @@ final class RefusalTest {
     private static Scene emptyScene() {
         Scene s = new Scene();
         s.name = "empty";
-        s.maker = PortDues::new;
+        s.maker = Dues::new;
         return s;
     }
 
@@ -128,8 +128,8 @@ final class RefusalTest {
     }
 
     /** Call 0 is billed but for its waste, of call 2 only days are billed, call 3 is cancelled. */
-    private static PortDues open() {
-        PortDues x = Check.loaded(OPEN);
+    private static Dues open() {
+        Dues x = Check.loaded(OPEN);
         x.bill(0);
         x.bill(2);
         x.credit(0, 4);
@@ -187,8 +187,8 @@ final class RefusalTest {
     }
 
     /** Of 20 calls all is credited and billed once more, of the others the dues could be billed if there was room. */
-    private static PortDues full() {
-        PortDues x = Check.loaded(FULL);
+    private static Dues full() {
+        Dues x = Check.loaded(FULL);
         for (int i = 0; i < 40; i++) {
             x.addCall(i % 8, 3599, 3628, 999);
             x.bill(i);
@@ -214,7 +214,7 @@ final class RefusalTest {
 
     /** The ledger is what has been written down of it. */
     private void dueScene() {
-        PortDues x = scene.maker.make();
+        Dues x = scene.maker.make();
         String name = scene.name + ": ";
         Check.due(name + "the output", Check.rest(x), scene.output);
         Check.due(name + "the input", Check.inputLength(x), scene.inputLength);
@@ -407,10 +407,11 @@ final class RefusalTest {
     private void row(Kind kind, String name, Test index, Test argument, Test state, int[]... values) {
         tested.add(name);
         Method method = null;
-        for (Method m : PortDues.class.getDeclaredMethods()) {
-            method = m.getName().equals(name) ? m : method;
+        for (Method m : Dues.class.getDeclaredMethods()) {
+            method = m.getName().equals(name) && Modifier.isPublic(m.getModifiers()) ? m : method;
         }
-        PortDues x = scene.maker.make();
+        Dues x = scene.maker.make();
+        x.tryOut();
         int made = 0;
         int[] choice = new int[values.length];
         do {
@@ -428,11 +429,14 @@ final class RefusalTest {
                 allowed(kind, what, method, a);
             }
             if (made == 100) {
+                x.endOfTrying();
                 Check.due(what + " and calls before it changed something", Check.whole(x), untouched);
                 x = scene.maker.make();
+                x.tryOut();
                 made = 0;
             }
         } while (next(choice, values));
+        x.endOfTrying();
         Check.due(scene.name + ": " + name + " changed something", Check.whole(x), untouched);
     }
 
@@ -449,7 +453,7 @@ final class RefusalTest {
 
     /** A call that does not throw; "can be undone (also if it made or changed nothing)". */
     private void allowed(Kind kind, String what, Method method, int[] a) {
-        PortDues x = scene.maker.make();
+        Dues x = scene.maker.make();
         Check.due(what + " throws", thrown(x, method, a), "nothing");
         if (kind == Kind.CHANGE) {
             Check.due(what + ": undoCount", x.undoCount(), Math.min(scene.undos + 1, 6));
@@ -458,7 +462,7 @@ final class RefusalTest {
         }
     }
 
-    private static String thrown(PortDues x, Method method, int[] a) {
+    private static String thrown(Dues x, Method method, int[] a) {
         Object[] arguments = new Object[a.length];
         for (int i = 0; i < a.length; i++) {
             boolean yesOrNo = method.getParameterTypes()[i] == boolean.class;

@@ -42,24 +42,36 @@ final class RoomTest {
 
     private static long runOfLoads() {
         PortDues x = new PortDues();
-        int[] words = new int[50];
-        for (int i = 0; i < words.length * 4; i++) {
-            words[i / 4] |= (i < SHIPS.length() ? SHIPS.charAt(i) : ' ') << (24 - i % 4 * 8);
-        }
+        int[] words = words(SHIPS);
         long before = allocated();
         for (int calls = 0; calls + 11 <= 512; calls += 11) {
-            for (int i = 0; i < words.length; i += 5) {
-                x.append(words[i], words[i + 1], words[i + 2], words[i + 3], words[i + 4]);
-            }
-            if (x.load() != 8) {
+            load(x, words);
+            if (x.count(0) != 8) {
                 Check.due("the text", x.errorPosition(), PortDues.NONE);
             }
         }
         return allocated() - before;
     }
 
+    /** The bytes of a text, with spaces behind it. */
+    private static int[] words(String text) {
+        int[] words = new int[(text.length() + 19) / 20 * 5];
+        for (int i = 0; i < words.length * 4; i++) {
+            words[i / 4] |= (i < text.length() ? text.charAt(i) : ' ') << (24 - i % 4 * 8);
+        }
+        return words;
+    }
+
+    private static void load(PortDues x, int[] words) {
+        for (int i = 0; i < words.length; i += 5) {
+            x.append(words[i], words[i + 1], words[i + 2], words[i + 3], words[i + 4]);
+        }
+        x.load();
+    }
+
     private static long plainRun() {
-        PortDues x = Check.loaded("band 0 rate 2;rebate 2 percent 9;lay free 0 rate 7;ship a tons 9;");
+        PortDues x = new PortDues();
+        load(x, words("band 0 rate 2;rebate 2 percent 9;lay free 0 rate 7;ship a tons 9;"));
         long before = allocated();
         for (int i = 0; i < 40; i++) {
             x.addCall(0, i, i + 29, i);

@@ -23,7 +23,7 @@ final class TariffTest {
     }
 
     private static void counts() {
-        PortDues x = Check.loaded(TEXT);
+        Dues x = Check.loaded(TEXT);
         x.addCall(0, 5, 5, 0);
         x.cancel(1);
         x.bill(0);
@@ -46,7 +46,7 @@ final class TariffTest {
     }
 
     private static void numbersOfTheTariff() {
-        PortDues x = Check.loaded("slab;waste fixed 1 free 2 price 3;lay free 4 rate 5;");
+        Dues x = Check.loaded("slab;waste fixed 1 free 2 price 3;lay free 4 rate 5;");
         for (int what = 0; what <= 5; what++) {
             Check.due("tariff(" + what + ")", x.tariff(what), what == 0 ? 1 : what);
         }
@@ -58,7 +58,7 @@ final class TariffTest {
     }
 
     private static void bandsAndRebates() {
-        PortDues x = Check.loaded(TEXT);
+        Dues x = Check.loaded(TEXT);
         int[][] bands = {{0, 2}, {100, 3}, {101, 999}};
         for (int i = 0; i < 6; i++) {
             Check.due("band(" + i / 2 + ", " + i % 2 + ")", x.band(i / 2, i % 2), bands[i / 2][i % 2]);
@@ -80,7 +80,7 @@ final class TariffTest {
     }
 
     private static void slices() {
-        PortDues x = Check.loaded(TEXT);
+        Dues x = Check.loaded(TEXT);
         int[][] due = {{0, 0, 0}, {1, 0, 2}, {99, 0, 198}, {100, 1, 200}, {101, 2, 203}, {102, 2, 1202},
             {9999, 2, 203 + 999 * 9898}};
         for (int[] d : due) {
@@ -91,14 +91,14 @@ final class TariffTest {
             Check.dueThrow("bandOf(" + tons + ")", Check.ARGUMENT, () -> x.bandOf(tons));
             Check.dueThrow("dues(" + tons + ")", Check.ARGUMENT, () -> x.dues(tons));
         }
-        PortDues none = Check.loaded("ship a tons 5;");
+        Dues none = Check.loaded("ship a tons 5;");
         Check.due("bandOf without bands", none.bandOf(9999), PortDues.NONE);
         Check.due("dues without bands", none.dues(9999), 0);
         Check.dueThrow("tonsIn without bands", Check.INDEX, () -> none.tonsIn(1, 0));
     }
 
     private static void slab() {
-        PortDues x = Check.loaded("slab;" + TEXT);
+        Dues x = Check.loaded("slab;" + TEXT);
         int[][] due = {{0, 0}, {1, 2}, {99, 198}, {100, 300}, {101, 101 * 999}, {9999, 9999 * 999}};
         for (int[] d : due) {
             Check.due("slab: dues(" + d[0] + ")", x.dues(d[0]), d[1]);
@@ -109,7 +109,7 @@ final class TariffTest {
 
     private static void tonsIn() {
         for (String mode : new String[] {"slices;", "slab;"}) {
-            PortDues x = Check.loaded(mode + TEXT);
+            Dues x = Check.loaded(mode + TEXT);
             int[][] due = {{0, 0, 0, 0}, {99, 99, 0, 0}, {100, 100, 0, 0}, {101, 100, 1, 0}, {102, 100, 1, 1},
                 {9999, 100, 1, 9898}};
             for (int[] d : due) {
@@ -127,7 +127,7 @@ final class TariffTest {
     }
 
     private static void wasteFee() {
-        PortDues x = Check.loaded(TEXT);
+        Dues x = Check.loaded(TEXT);
         int[][] due = {{0, 5}, {10, 5}, {11, 7}, {999, 5 + 2 * 989}};
         for (int[] d : due) {
             Check.due("wasteFee(" + d[0] + ")", x.wasteFee(d[0]), d[1]);
@@ -139,7 +139,7 @@ final class TariffTest {
     }
 
     private static void setRate() {
-        PortDues x = Check.loaded(TEXT);
+        Dues x = Check.loaded(TEXT);
         Check.due("setRate(1, 10)", x.setRate(1, 10), 1);
         Check.due("its rate", x.band(1, 1), 10);
         Check.due("its tonnage", x.band(1, 0), 100);
@@ -158,7 +158,7 @@ final class TariffTest {
     }
 
     private static void setPercent() {
-        PortDues x = Check.loaded(TEXT);
+        Dues x = Check.loaded(TEXT);
         x.addCall(0, 20, 20, 0);
         Check.due("setPercent(0, 33)", x.setPercent(0, 33), 1);
         Check.due("its percentage", x.rebate(0, 1), 33);
@@ -176,7 +176,7 @@ final class TariffTest {
     }
 
     private static void setLay() {
-        PortDues x = Check.loaded(TEXT);
+        Dues x = Check.loaded(TEXT);
         x.dispute(0, 2);
         x.dispute(0, 3);
         x.settle(0, 3, true);
@@ -200,11 +200,11 @@ final class TariffTest {
         for (int rate : Check.outside(0, 9999)) {
             Check.dueRefused(x, "setLay(0, " + rate + ")", Check.ARGUMENT, () -> x.setLay(0, rate));
         }
-        Check.due("setLay without a text", new PortDues().setLay(1, 1), 1);
+        Check.due("setLay without a text", new Dues().setLay(1, 1), 1);
     }
 
     private static void lastVersion() {
-        PortDues x = Check.loaded(TEXT);
+        Dues x = Check.loaded(TEXT);
         for (int i = 1; i <= 20; i++) {
             Check.due("version", i % 3 == 0 ? x.setRate(0, i) : i % 3 == 1 ? x.setPercent(0, i) : x.setLay(i, i), i);
         }
@@ -222,7 +222,7 @@ final class TariffTest {
     }
 
     private static void sheet() {
-        PortDues x = Check.loaded(TEXT);
+        Dues x = Check.loaded(TEXT);
         String rest = "waste fixed 5 free 10 price 2\n";
         String version0 = "version 0\nslices\nband 0 rate 2\nband 100 rate 3\nband 101 rate 999\nrebate 2 percent 10\n"
                 + "rebate 4 percent 50\n" + rest + "lay free 2 rate 7\n";

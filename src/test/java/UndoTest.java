@@ -19,15 +19,15 @@ final class UndoTest {
     }
 
     private static void nothingToUndo() {
-        PortDues x = new PortDues();
+        Dues x = new Dues();
         Check.dueRefused(x, "undo of nothing", Check.STATE, x::undo);
         x.advance(1);
         Check.due("undo", x.undo(), 0);
         Check.dueRefused(x, "undo of nothing more", Check.STATE, x::undo);
     }
 
-    private static PortDues prepared() {
-        PortDues x = Check.loaded(TEXT);
+    private static Dues prepared() {
+        Dues x = Check.loaded(TEXT);
         x.bill(0);
         x.credit(0, 1);
         x.dispute(1, 2);
@@ -55,17 +55,17 @@ final class UndoTest {
         undone("setPercent", x -> x.setPercent(0, 5));
         undone("setLay", x -> x.setLay(0, 5));
         undone("load", x -> Check.load(x, "slab;band 0 rate 1;ship z tons 3;call z 0 to 0 waste 0;"));
-        PortDues x = Check.loaded("ship a tons 1;");
+        Dues x = Check.loaded("ship a tons 1;");
         Check.due("billAll of nothing", x.billAll(0), 0);
         Check.due("it counts", x.undoCount(), 2);
     }
 
     private interface Change {
-        void make(PortDues x);
+        void make(Dues x);
     }
 
     private static void undone(String name, Change change) {
-        PortDues x = prepared();
+        Dues x = prepared();
         String before = Check.state(x);
         String statement = Check.statement(x, 0);
         int count = x.undoCount();
@@ -80,7 +80,7 @@ final class UndoTest {
     }
 
     private static void theLastSix() {
-        PortDues x = new PortDues();
+        Dues x = new Dues();
         for (int i = 1; i <= 9; i++) {
             x.advance(1);
             Check.due("undoCount", x.undoCount(), Math.min(i, 6));
@@ -94,7 +94,7 @@ final class UndoTest {
     }
 
     private static void loads() {
-        PortDues x = Check.loaded(TEXT);
+        Dues x = Check.loaded(TEXT);
         x.bill(0);
         x.advance(4);
         Check.due("load", Check.load(x, "ship c tons 4;"), 1);
@@ -115,13 +115,13 @@ final class UndoTest {
     }
 
     private static void throwsAndQueriesDoNotCount() {
-        PortDues x = prepared();
+        Dues x = prepared();
         Check.dueThrow("bill", Check.STATE, () -> {
             x.bill(0);
             x.bill(0);
         });
         Check.due("only the first one counts", x.undoCount(), 6);
-        PortDues y = Check.loaded(TEXT);
+        Dues y = Check.loaded(TEXT);
         y.quote(0, 1, 1, 1);
         y.worth(0);
         y.bestDay(0, 1, 50, 1, 1);
@@ -140,7 +140,7 @@ final class UndoTest {
 
     /** What an undone or replaced call or invoice had does not come back with the next one of its number. */
     private static void rowsThatAreUsedAgain() {
-        PortDues x = new PortDues();
+        Dues x = new Dues();
         String text = "lay free 0 rate 7;ship a tons 150;";
         String freshCall = "";
         String freshInvoice = "";
@@ -169,7 +169,7 @@ final class UndoTest {
 
     /** A text that was loaded in between has used the same rows. */
     private static void rowsOfAnotherText() {
-        PortDues x = Check.loaded(TEXT);
+        Dues x = Check.loaded(TEXT);
         x.advance(3);
         x.setLay(0, 8);
         x.setRate(0, 3);
@@ -198,7 +198,7 @@ final class UndoTest {
     }
 
     private static void throughTheRing() {
-        PortDues x = Check.loaded(TEXT);
+        Dues x = Check.loaded(TEXT);
         for (int round = 0; round < 20; round++) {
             for (int i = 0; i < 1 + round % 6; i++) {
                 x.pay(0, 1 + round);
